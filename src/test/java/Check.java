@@ -1,0 +1,31 @@
+/** Counts answers that are due and tells those that are not. */
+final class Check {
+    private static final int MOST_TOLD = 50;
+    private static int right = 0;
+    private static int wrong = 0;
+
+    private Check() {
+    }
+
+    static void due(String call, long got, long want) {
+        if (got == want) {
+            right++;
+            return;
+        }
+        wrong++;
+        if (wrong <= MOST_TOLD) {
+            System.out.println(call + " answered " + got + ", due is " + want);
+        }
+    }
+
+    static void that(String what, boolean holds) {
+        due(what, holds ? 1 : 0, 1);
+    }
+
+    static void end() {
+        System.out.println(right + " answers as due, " + wrong + " not");
+        if (wrong != 0 || right == 0) {
+            System.exit(1);
+        }
+    }
+}
