@@ -8,6 +8,8 @@ public final class ForesightTest {
         noMessages();
         bestShiftByDueDots();
         bestShiftByKnownDots();
+        bestShiftAtTheEdge();
+        bestShiftToABrightDot();
         due();
         secondsFor();
         secondsForWithStuckDots();
@@ -92,6 +94,31 @@ public final class ForesightTest {
         board.pass(4);
         Check.due("23: known to be bright", board.column(3, 3) & 1, 1);
         Check.due("23: the bright dot is met in place", board.bestShift(0), 0);
+    }
+
+    private static void bestShiftAtTheEdge() {
+        FlipBoard board = Boards.withText(6, "a=7f; b=7f00000000; >a; >b;");
+        board.jam(0, 0);
+        board.show(1, 0);
+        board.pass(1);
+        Check.due("23: known at the left edge", board.column(0, 3), 1);
+        Check.due("23: then -2 has no due dot, but a known one", board.bestShift(0), 0);
+        board.mend(0, 0);
+        Check.due("23: mended", board.bestShift(0), -2);
+    }
+
+    private static void bestShiftToABrightDot() {
+        FlipBoard board = Boards.withText(8, "a=7f; b=7f0100; >a; >b;");
+        board.show(1, 0);
+        board.pass(9);
+        board.jam(3, 0);
+        board.darken();
+        board.pass(9);
+        Check.due("23: a bright dot is known", board.column(3, 3), 1);
+        board.show(1, 0);
+        board.pass(9);
+        Check.due("23: it draws the picture to it", board.bestShift(0), 0);
+        Check.due("23: away from the fewest due dots", board.due(0, 1), 7 + 6);
     }
 
     private static void due() {
@@ -211,6 +238,8 @@ public final class ForesightTest {
         for (int what : wrongWhat) {
             Check.due("27: wrong what", board.bestOrder(1, what), INVALID);
         }
+        Check.due("27: the first alone", board.bestOrder(1, 1), 0);
+        Check.due("27: no flips", board.bestOrder(1, 0), 0);
         Check.due("27: one", board.bestOrder(64, 1), 6);
         Check.due("27: no second", board.bestOrder(64, 2), NONE);
         Check.due("27: no fifth", board.bestOrder(15, 5), NONE);

@@ -57,6 +57,10 @@ public final class LookingTest {
         Check.due("15: stuck at both ends", board.count(Boards.STUCK), 2);
         Check.due("15: not known", board.count(Boards.KNOWN), 0);
         Check.due("15: not due", board.count(Boards.DUE), 0);
+        FlipBoard full = Boards.withText(40, "a=7f7f7f7f7f; >aaaaaaaaaaaa;");
+        full.show(0, 0);
+        Check.due("15: due to both ends", full.count(Boards.DUE), 238);
+        Check.due("15: another side, to both ends", full.count(Boards.OTHER), 238);
     }
 
     private static void column() {

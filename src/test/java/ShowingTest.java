@@ -47,6 +47,8 @@ public final class ShowingTest {
         Check.due("10: back", board.show(0, 0), 23);
         board.pass(9);
         Check.due("10: the same", board.show(0, 0), 0);
+        FlipBoard narrow = Boards.withText(6, "a=7f7f7f7f7f; >aa;");
+        Check.due("10: what lies beside the board is not due", narrow.show(0, 0), 35);
     }
 
     private static void showStays() {
@@ -242,6 +244,14 @@ public final class ShowingTest {
             Check.due("14: anew, power", board.power(1), power[second]);
         }
         Check.due("14: anew, none due", board.count(Boards.DUE), 0);
+        FlipBoard edge = Boards.withText(6, "a=0100000003; >a;");
+        edge.setNumber(1, 2);
+        edge.setNumber(0, 3);
+        edge.show(0, 0);
+        edge.pass(1);
+        columnsAre("14: the first column is not the first", edge, 0, 0, 0, 0, 0, 3, 0);
+        edge.pass(1);
+        columnsAre("14: but it is the second", edge, 0, 1, 0, 0, 0, 3, 0);
     }
 
     private static void passTriesStuckDots() {
