@@ -49,7 +49,7 @@ public final class FlipBoard {
     private final State now = new State();
     private final State trial = new State();
     private final History history = new History();
-    private final Painter painter = new Painter(now);
+    private final Painter painter = new Painter();
     private final Flipper flipper = new Flipper();
     private final Reader reader = new Reader();
     private final Orders orders = new Orders();
@@ -157,7 +157,7 @@ public final class FlipBoard {
             return INVALID_ARGUMENT;
         }
         history.keep(now);
-        painter.drawAs(message, how);
+        painter.drawAs(now, message, how);
         now.dots.aimAt(painter.picture);
         return now.dots.dueDots();
     }
@@ -299,7 +299,7 @@ public final class FlipBoard {
         if (shift < -FARTHEST_SHIFT || shift > FARTHEST_SHIFT) {
             return INVALID_ARGUMENT;
         }
-        painter.draw(message, shift, painter.picture);
+        painter.draw(now, message, shift, painter.picture);
         return painter.picture[column];
     }
 
@@ -319,14 +319,14 @@ public final class FlipBoard {
         if (!now.script.hasMessage(message)) {
             return INVALID_ARGUMENT;
         }
-        return painter.bestShiftOf(message);
+        return painter.bestShiftOf(now, message);
     }
 
     public int due(int message, int how) {
         if (!canShow(message, how)) {
             return INVALID_ARGUMENT;
         }
-        painter.drawAs(message, how);
+        painter.drawAs(now, message, how);
         return now.dots.differing(painter.picture, now.dots.shown);
     }
 
@@ -334,7 +334,7 @@ public final class FlipBoard {
         if (!canShow(message, how)) {
             return INVALID_ARGUMENT;
         }
-        painter.drawAs(message, how);
+        painter.drawAs(now, message, how);
         trial.copyFrom(now);
         trial.dots.aimAt(painter.picture);
         for (int seconds = 0; seconds <= MOST_FORESEEN; seconds++) {
@@ -350,8 +350,8 @@ public final class FlipBoard {
         if (!now.script.hasMessage(a) || !now.script.hasMessage(b)) {
             return INVALID_ARGUMENT;
         }
-        painter.draw(a, 0, painter.picture);
-        painter.draw(b, 0, painter.otherPicture);
+        painter.draw(now, a, 0, painter.picture);
+        painter.draw(now, b, 0, painter.otherPicture);
         return now.dots.differing(painter.picture, painter.otherPicture);
     }
 
@@ -362,7 +362,7 @@ public final class FlipBoard {
         if (what > Integer.bitCount(messages)) {
             return NONE;
         }
-        orders.find(messages, painter, now.dots);
+        orders.find(now, messages, painter);
         return what == 0 ? orders.fewestFlips() : orders.messageAt(what);
     }
 
@@ -741,15 +741,10 @@ public final class FlipBoard {
     }
 
     private static final class Painter {
-        final State state;
         final int[] picture = new int[MOST_COLUMNS];
         final int[] otherPicture = new int[MOST_COLUMNS];
 
-        Painter(State state) {
-            this.state = state;
-        }
-
-        void draw(int message, int shift, int[] onto) {
+        void draw(State state, int message, int shift, int[] onto) {
             int width = state.dots.width;
             int total = state.script.stripColumns(message);
             int start = total <= width ? (width - total) / 2 + shift : shift;
@@ -758,16 +753,17 @@ public final class FlipBoard {
             }
         }
 
-        void drawAs(int message, int how) {
-            draw(message, how == BEST_SHIFT ? bestShiftOf(message) : 0, picture);
+        void drawAs(State state, int message, int how) {
+            int shift = how == BEST_SHIFT ? bestShiftOf(state, message) : 0;
+            draw(state, message, shift, picture);
         }
 
-        int bestShiftOf(int message) {
+        int bestShiftOf(State state, int message) {
             int best = 0;
             int fewestAgainst = Integer.MAX_VALUE;
             int fewestDue = Integer.MAX_VALUE;
             for (int shift : SHIFTS) {
-                draw(message, shift, picture);
+                draw(state, message, shift, picture);
                 int against = state.dots.knownAgainst(picture);
                 int due = state.dots.differing(picture, state.dots.shown);
                 if (against < fewestAgainst || against == fewestAgainst && due < fewestDue) {
@@ -969,9 +965,9 @@ public final class FlipBoard {
         final int[][] fewest = new int[SUBSETS][LINES];
         private int size = 0;
 
-        void find(int messages, Painter painter, Dots dots) {
-            gather(messages, painter, dots);
-            measure(dots);
+        void find(State state, int messages, Painter painter) {
+            gather(state, messages, painter);
+            measure(state.dots);
             for (int left = 1; left < SUBSETS && left <= wholeSet(); left++) {
                 for (int last = 0; last <= size && last < LINES; last++) {
                     fewest[left][last] = flipsBy(last, nextBehind(last, left), left);
@@ -994,14 +990,14 @@ public final class FlipBoard {
             return last >= 0 && last < LINES ? members[last] : 0;
         }
 
-        private void gather(int messages, Painter painter, Dots dots) {
+        private void gather(State state, int messages, Painter painter) {
             size = 0;
-            copy(dots.shown, pictures[0]);
+            copy(state.dots.shown, pictures[0]);
             for (int message = 0; message < MESSAGES; message++) {
                 if ((messages & 1 << message) != 0 && size < ORDERED_MESSAGES) {
                     size++;
                     members[size] = message;
-                    painter.draw(message, 0, pictures[size]);
+                    painter.draw(state, message, 0, pictures[size]);
                 }
             }
         }
