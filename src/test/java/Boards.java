@@ -21,57 +21,23 @@ final class Boards {
     private Boards() {
     }
 
-    static void type(FlipBoard board, String text) {
+    static void type(Board board, String text) {
         for (int i = 0; i < text.length(); i++) {
             board.appendCharacter(text.charAt(i));
         }
     }
 
     /** Puts the text in place of the one that stands there and reads it. */
-    static int load(FlipBoard board, String text) {
+    static int load(Board board, String text) {
         board.clearText();
         type(board, text);
         return board.load();
     }
 
-    static FlipBoard withText(int columns, String text) {
-        FlipBoard board = new FlipBoard();
+    static Board withText(int columns, String text) {
+        Board board = new Board();
         board.begin(columns);
         Check.that("load " + text, load(board, text) >= 0);
         return board;
-    }
-
-    /** Everything that the looking calls tell, but for the text and the saved states. */
-    static String look(FlipBoard board) {
-        StringBuilder seen = new StringBuilder();
-        for (int what = 0; what <= 12; what++) {
-            seen.append(board.count(what)).append(' ');
-        }
-        for (int column = 0; column < board.count(WIDTH); column++) {
-            for (int what = 0; what < 4; what++) {
-                seen.append(board.column(column, what)).append(' ');
-            }
-            for (int row = 0; row < 7; row++) {
-                seen.append(board.flips(column, row)).append(' ');
-            }
-        }
-        for (int letter = 0; letter < 26; letter++) {
-            for (int index = 0; index < 6; index++) {
-                seen.append(board.letter(letter, index)).append(' ');
-            }
-        }
-        for (int message = 0; message < 9; message++) {
-            for (int index = 0; index < 13; index++) {
-                seen.append(board.message(message, index)).append(' ');
-            }
-        }
-        for (int ago = 1; ago <= 20; ago++) {
-            seen.append(board.power(ago)).append(' ');
-        }
-        return seen.toString();
-    }
-
-    static String lookWithText(FlipBoard board) {
-        return look(board) + board.count(TEXT) + " " + board.count(SAVED);
     }
 }

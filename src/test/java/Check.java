@@ -22,6 +22,18 @@ final class Check {
         due(what, holds ? 1 : 0, 1);
     }
 
+    /** Two rows of words that are to be alike; tells the first that is not. */
+    static void same(String what, String got, String want) {
+        String[] words = got.split(" ");
+        String[] others = want.split(" ");
+        int place = 0;
+        while (place < words.length && place < others.length && words[place].equals(others[place])) {
+            place++;
+        }
+        boolean alike = place == words.length && place == others.length;
+        that(alike ? what : what + ", from word " + place + " on", alike);
+    }
+
     static void end() {
         System.out.println(right + " answers as due, " + wrong + " not");
         if (wrong != 0 || right == 0) {

@@ -112,7 +112,12 @@ public final class FaceTest {
 
     /** All rows are made by the constructor: the dearest calls make no object. */
     private static void callsMakeNothing() {
-        FlipBoard board = Boards.withText(40, "a=7f7f7f7f7f;>aaaaaaaaaaaa;>a;>aa;>aaa;>a_a;");
+        FlipBoard board = new FlipBoard();
+        board.begin(40);
+        for (char sign : "a=7f7f7f7f7f;>aaaaaaaaaaaa;>a;>aa;>aaa;>a_a;".toCharArray()) {
+            board.appendCharacter(sign);
+        }
+        Check.due("items", board.load(), 6);
         work(board);
         var threads = (com.sun.management.ThreadMXBean) java.lang.management.ManagementFactory.getThreadMXBean();
         long before = threads.getThreadAllocatedBytes(Thread.currentThread().getId());

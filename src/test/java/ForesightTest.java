@@ -29,7 +29,7 @@ public final class ForesightTest {
     }
 
     private static void noMessages() {
-        FlipBoard board = Boards.withText(8, "a=7f; >a; >a;");
+        Board board = Boards.withText(8, "a=7f; >a; >a;");
         int[] wrong = {-1, 2, 8, Integer.MIN_VALUE, Integer.MAX_VALUE};
         for (int message : wrong) {
             Check.due("23: no message", board.bestShift(message), INVALID);
@@ -46,8 +46,8 @@ public final class ForesightTest {
     }
 
     /** A board of 8 columns that shows its second message; the first is one column, at 3. */
-    private static FlipBoard showing(String secondLetter) {
-        FlipBoard board = Boards.withText(8, "a=7f; b=" + secondLetter + "; >a; >b;");
+    private static Board showing(String secondLetter) {
+        Board board = Boards.withText(8, "a=7f; b=" + secondLetter + "; >a; >b;");
         board.show(1, 0);
         board.pass(20);
         Check.due("all is shown", board.count(Boards.OTHER), 0);
@@ -55,7 +55,7 @@ public final class ForesightTest {
     }
 
     private static void bestShiftByDueDots() {
-        FlipBoard board = Boards.withText(8, "a=7f; >a;");
+        Board board = Boards.withText(8, "a=7f; >a;");
         Check.due("23: all alike", board.bestShift(0), 0);
         Check.due("23: -2", showing("7f00000000").bestShift(0), -2);
         Check.due("23: -1", showing("7f0000").bestShift(0), -1);
@@ -71,7 +71,7 @@ public final class ForesightTest {
     }
 
     private static void bestShiftByKnownDots() {
-        FlipBoard board = Boards.withText(8, "a=7f; b=7f; >a; >b;");
+        Board board = Boards.withText(8, "a=7f; b=7f; >a; >b;");
         board.jam(3, 0);
         Check.due("23: not known, does not count", board.bestShift(0), 0);
         board.show(0, 0);
@@ -97,7 +97,7 @@ public final class ForesightTest {
     }
 
     private static void bestShiftAtTheEdge() {
-        FlipBoard board = Boards.withText(6, "a=7f; b=7f00000000; >a; >b;");
+        Board board = Boards.withText(6, "a=7f; b=7f00000000; >a; >b;");
         board.jam(0, 0);
         board.show(1, 0);
         board.pass(1);
@@ -108,7 +108,7 @@ public final class ForesightTest {
     }
 
     private static void bestShiftToABrightDot() {
-        FlipBoard board = Boards.withText(8, "a=7f; b=7f0100; >a; >b;");
+        Board board = Boards.withText(8, "a=7f; b=7f0100; >a; >b;");
         board.show(1, 0);
         board.pass(9);
         board.jam(3, 0);
@@ -122,7 +122,7 @@ public final class ForesightTest {
     }
 
     private static void due() {
-        FlipBoard board = showing("7f0000");
+        Board board = showing("7f0000");
         Check.due("24: how 0", board.due(0, 0), 14);
         Check.due("24: how 1", board.due(0, 1), 0);
         Check.due("24: what is shown", board.due(1, 0), 0);
@@ -138,7 +138,7 @@ public final class ForesightTest {
     }
 
     private static void secondsFor() {
-        FlipBoard board = Boards.withText(8, "a=7f; b=03; >a; >b; >q;");
+        Board board = Boards.withText(8, "a=7f; b=03; >a; >b; >q;");
         board.setNumber(0, 4);
         Check.due("25: 3, 3 and 1", board.secondsFor(0, 0), 3);
         Check.due("25: in one", board.secondsFor(1, 0), 1);
@@ -153,13 +153,13 @@ public final class ForesightTest {
         Check.due("25: five back", board.secondsFor(1, 0), 2);
         board.setNumber(0, 8);
         Check.due("25: with more power", board.secondsFor(1, 0), 1);
-        String before = Boards.lookWithText(board);
+        String before = board.whole();
         board.secondsFor(1, 1);
-        Check.that("25: nothing changes", Boards.lookWithText(board).equals(before));
+        Check.same("25: nothing changes", board.whole(), before);
     }
 
     private static void secondsForWithStuckDots() {
-        FlipBoard board = Boards.withText(8, "a=7f; >a; >q;");
+        Board board = Boards.withText(8, "a=7f; >a; >q;");
         board.setNumber(0, 4);
         board.setNumber(2, 1);
         board.jam(3, 0);
@@ -177,7 +177,7 @@ public final class ForesightTest {
     }
 
     private static void secondsForWithTheShiftOfNow() {
-        FlipBoard board = Boards.withText(8, "a=7f; >a;");
+        Board board = Boards.withText(8, "a=7f; >a;");
         board.setNumber(0, 2);
         board.jam(3, 0);
         // the first second finds the dot; another shift would then be better, and take longer
@@ -192,7 +192,7 @@ public final class ForesightTest {
     }
 
     private static void secondsForManyDots() {
-        FlipBoard board = Boards.withText(40, "a=7f7f7f7f7f; >aaaaaaaaaaaa; >q;");
+        Board board = Boards.withText(40, "a=7f7f7f7f7f; >aaaaaaaaaaaa; >q;");
         board.setNumber(0, 2);
         for (int order = 0; order < 3; order++) {
             board.setNumber(1, order);
@@ -206,7 +206,7 @@ public final class ForesightTest {
     }
 
     private static void between() {
-        FlipBoard board = Boards.withText(8, "a=7f; b=03; d=030c; >a; >b; >d; >q; >aa;");
+        Board board = Boards.withText(8, "a=7f; b=03; d=030c; >a; >b; >d; >q; >aa;");
         Check.due("26: a and b", board.between(0, 1), 5);
         Check.due("26: b and a", board.between(1, 0), 5);
         Check.due("26: a and a", board.between(0, 0), 0);
@@ -226,7 +226,7 @@ public final class ForesightTest {
     }
 
     private static void bestOrderArguments() {
-        FlipBoard board = new FlipBoard();
+        Board board = new Board();
         Check.due("27: no messages", board.bestOrder(1, 0), INVALID);
         Boards.load(board, ">a;>a;>a;>a;>a;>a;>a;");
         int[] wrong = {0, -1, 128, 129, 63, 127, 1 << 30, Integer.MIN_VALUE, Integer.MAX_VALUE};
@@ -249,7 +249,7 @@ public final class ForesightTest {
         Check.due("27: beyond the eighth", board.bestOrder(256, 0), INVALID);
     }
 
-    private static void orderIs(FlipBoard board, int messages, int flips, int... order) {
+    private static void orderIs(Board board, int messages, int flips, int... order) {
         Check.due("27: flips", board.bestOrder(messages, 0), flips);
         for (int place = 0; place < order.length; place++) {
             Check.due("27: place " + place, board.bestOrder(messages, place + 1), order[place]);
@@ -260,7 +260,7 @@ public final class ForesightTest {
     }
 
     private static void bestOrder() {
-        FlipBoard board = Boards.withText(6, "a=7f; b=01; c=1f; d=07; >a; >b; >c; >d;");
+        Board board = Boards.withText(6, "a=7f; b=01; c=1f; d=07; >a; >b; >c; >d;");
         // from dark: 1, then 2, 2, 2
         orderIs(board, 15, 7, 1, 3, 2, 0);
         orderIs(board, 5, 7, 2, 0);
@@ -273,7 +273,7 @@ public final class ForesightTest {
     }
 
     private static void bestOrderOfEqualOnes() {
-        FlipBoard board = Boards.withText(6, "a=01; b=02; c=04; d=08; e=10; >a; >b; >c; >d; >e;");
+        Board board = Boards.withText(6, "a=01; b=02; c=04; d=08; e=10; >a; >b; >c; >d; >e;");
         // each step costs 2 flips, whichever way it goes
         orderIs(board, 31, 9, 0, 1, 2, 3, 4);
         orderIs(board, 26, 5, 1, 3, 4);
@@ -286,7 +286,7 @@ public final class ForesightTest {
     }
 
     private static void bestOrderWithoutKnownDots() {
-        FlipBoard board = Boards.withText(6, "a=70; b=03; >a; >b;");
+        Board board = Boards.withText(6, "a=70; b=03; >a; >b;");
         orderIs(board, 3, 2 + 5, 1, 0);
         board.jam(2, 4);
         board.jam(2, 5);
@@ -299,7 +299,7 @@ public final class ForesightTest {
     }
 
     private static void bestOrderOfFive() {
-        FlipBoard board = Boards.withText(6,
+        Board board = Boards.withText(6,
             "a=7f; b=01; c=3f; d=03; e=0f; f=07; g=1f; h=00; >a; >b; >c; >d; >e; >f; >g; >h;");
         orderIs(board, 0x5e, 6, 1, 3, 4, 6, 2);
         orderIs(board, 0xe3, 7, 7, 1, 5, 6, 0);
@@ -311,19 +311,19 @@ public final class ForesightTest {
     }
 
     private static void undoOfEveryCall() {
-        FlipBoard board = Boards.withText(8, "a=7f; >a; >aa;");
+        Board board = Boards.withText(8, "a=7f; >a; >aa;");
         board.setNumber(2, 2);
         board.jam(3, 0);
         board.show(0, 0);
         board.pass(1);
         for (int call = 0; call < 11; call++) {
-            String before = Boards.look(board);
+            String before = board.look();
             int saved = board.count(Boards.SAVED);
             Check.that("28: call " + call, change(board, call) >= 0);
             Check.due("28: saved by " + call, board.count(Boards.SAVED), Math.min(saved + 1, 6));
-            Check.that("28: changed by " + call, !Boards.look(board).equals(before));
+            Check.that("28: changed by " + call, !board.look().equals(before));
             Check.due("28: undo of " + call, board.undo(), Math.min(saved, 5));
-            Check.that("28: restored from " + call, Boards.look(board).equals(before));
+            Check.same("28: restored from " + call, board.look(), before);
             change(board, call);
         }
         Check.due("28: six", board.count(Boards.SAVED), 6);
@@ -335,7 +335,7 @@ public final class ForesightTest {
         Check.due("28: none saved", board.count(Boards.SAVED), 0);
     }
 
-    private static int change(FlipBoard board, int call) {
+    private static int change(Board board, int call) {
         switch (call) {
             case 0: return board.setNumber(0, 7);
             case 1: return board.setColumn(1, 0, 99);
@@ -352,33 +352,33 @@ public final class ForesightTest {
     }
 
     private static void undoOfSix() {
-        FlipBoard board = new FlipBoard();
+        Board board = new Board();
         String[] looks = new String[20];
         for (int step = 0; step < 15; step++) {
-            looks[step] = Boards.look(board);
+            looks[step] = board.look();
             board.setColumn(step, 0, step + 1);
             Check.due("28: at most six", board.count(Boards.SAVED), Math.min(step + 1, 6));
         }
         for (int step = 14; step >= 12; step--) {
             board.undo();
-            Check.that("28: the last ones", Boards.look(board).equals(looks[step]));
+            Check.same("28: the last ones", board.look(), looks[step]);
         }
         for (int step = 12; step < 14; step++) {
-            looks[step] = Boards.look(board);
+            looks[step] = board.look();
             board.setNumber(0, step);
         }
         for (int step = 13; step >= 9; step--) {
             Check.due("28: left", board.undo(), step - 9);
-            Check.that("28: the older ones", Boards.look(board).equals(looks[step]));
+            Check.same("28: the older ones", board.look(), looks[step]);
         }
         Check.due("28: the seventh is gone", board.undo(), ILLEGAL);
-        Check.that("28: nothing changes then", Boards.look(board).equals(looks[9]));
+        Check.same("28: nothing changes then", board.look(), looks[9]);
     }
 
     private static void undoBehindErrors() {
-        FlipBoard board = Boards.withText(8, "a=7f; >a;");
+        Board board = Boards.withText(8, "a=7f; >a;");
         Boards.type(board, "b=0");
-        String before = Boards.lookWithText(board);
+        String before = board.whole();
         board.begin(41);
         board.setNumber(0, 51);
         board.setColumn(0, 2, 0);
@@ -390,7 +390,7 @@ public final class ForesightTest {
         board.jam(8, 0);
         board.mend(0, 7);
         board.pass(0);
-        Check.that("28: an error changes and saves nothing", Boards.lookWithText(board).equals(before));
+        Check.same("28: an error changes and saves nothing", board.whole(), before);
         board.appendCharacter('1');
         board.clearText();
         Boards.type(board, "xyz");
@@ -403,12 +403,12 @@ public final class ForesightTest {
     }
 
     private static void nothingChanges() {
-        FlipBoard board = Boards.withText(8, "a=7f; b=01; >a; >aa; >b;");
+        Board board = Boards.withText(8, "a=7f; b=01; >a; >aa; >b;");
         board.jam(3, 0);
         board.show(0, 0);
         board.pass(1);
         Boards.type(board, "a=");
-        String before = Boards.lookWithText(board);
+        String before = board.whole();
         for (int i = -1; i < 9; i++) {
             board.bestShift(i);
             board.due(i, 1);
@@ -418,6 +418,6 @@ public final class ForesightTest {
             board.bestOrder(i, 0);
             board.bestOrder(7, i);
         }
-        Check.that("23 to 27: nothing changes", Boards.lookWithText(board).equals(before));
+        Check.same("23 to 27: nothing changes", board.whole(), before);
     }
 }

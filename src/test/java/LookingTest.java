@@ -20,14 +20,14 @@ public final class LookingTest {
         Check.end();
     }
 
-    private static void countsAre(String what, FlipBoard board, int... counts) {
+    private static void countsAre(String what, Board board, int... counts) {
         for (int number = 0; number < counts.length; number++) {
             Check.due(what + ", count " + number, board.count(number), counts[number]);
         }
     }
 
     private static void count() {
-        FlipBoard board = Boards.withText(8, "a=7f; >a; >b; >c;");
+        Board board = Boards.withText(8, "a=7f; >a; >b; >c;");
         int[] wrong = {-1, 15, 16, Integer.MIN_VALUE, Integer.MAX_VALUE};
         for (int what : wrong) {
             Check.due("15: wrong what", board.count(what), INVALID);
@@ -51,20 +51,20 @@ public final class LookingTest {
     }
 
     private static void countTellsSidesApart() {
-        FlipBoard board = Boards.withText(40, "a=7f; >a;");
+        Board board = Boards.withText(40, "a=7f; >a;");
         board.jam(39, 6);
         board.jam(0, 0);
         Check.due("15: stuck at both ends", board.count(Boards.STUCK), 2);
         Check.due("15: not known", board.count(Boards.KNOWN), 0);
         Check.due("15: not due", board.count(Boards.DUE), 0);
-        FlipBoard full = Boards.withText(40, "a=7f7f7f7f7f; >aaaaaaaaaaaa;");
+        Board full = Boards.withText(40, "a=7f7f7f7f7f; >aaaaaaaaaaaa;");
         full.show(0, 0);
         Check.due("15: due to both ends", full.count(Boards.DUE), 238);
         Check.due("15: another side, to both ends", full.count(Boards.OTHER), 238);
     }
 
     private static void column() {
-        FlipBoard board = Boards.withText(40, "a=7f7f7f7f7f; >aaaaaaaaaaaa;");
+        Board board = Boards.withText(40, "a=7f7f7f7f7f; >aaaaaaaaaaaa;");
         int[] wrong = {-1, 40, Integer.MIN_VALUE, Integer.MAX_VALUE};
         for (int column : wrong) {
             Check.due("16: no such column", board.column(column, 0), INVALID);
@@ -90,7 +90,7 @@ public final class LookingTest {
     }
 
     private static void flips() {
-        FlipBoard board = Boards.withText(6, "a=41; >a;");
+        Board board = Boards.withText(6, "a=41; >a;");
         int[] wrongColumns = {-1, 6, Integer.MIN_VALUE, Integer.MAX_VALUE};
         for (int column : wrongColumns) {
             Check.due("17: no such column", board.flips(column, 0), INVALID);
@@ -115,7 +115,7 @@ public final class LookingTest {
     }
 
     private static void letter() {
-        FlipBoard board = Boards.withText(6, "a=01; z=0203040506;");
+        Board board = Boards.withText(6, "a=01; z=0203040506;");
         Check.due("18: letter -1", board.letter(-1, 0), INVALID);
         Check.due("18: letter 26", board.letter(26, 0), INVALID);
         Check.due("18: letter least", board.letter(Integer.MIN_VALUE, 9), INVALID);
@@ -133,7 +133,7 @@ public final class LookingTest {
     }
 
     private static void message() {
-        FlipBoard board = Boards.withText(6, ">abcdefghijk_; >z;");
+        Board board = Boards.withText(6, ">abcdefghijk_; >z;");
         Check.due("19: message -1", board.message(-1, 0), INVALID);
         Check.due("19: message 2", board.message(2, 0), INVALID);
         Check.due("19: message 8", board.message(8, 99), INVALID);
@@ -154,7 +154,7 @@ public final class LookingTest {
         String texts = "a=01; b=0102; e=0102030405;"
             + ">a; >ab; >q; >qq; >_; >__; >a_b; >eeeeeeeeeeee;";
         int[] columns = {1, 4, 0, 1, 2, 5, 7, 71};
-        FlipBoard board = Boards.withText(6, texts);
+        Board board = Boards.withText(6, texts);
         for (int message = 0; message < columns.length; message++) {
             Check.due("20: strip", board.strip(message), columns[message]);
         }
@@ -169,7 +169,7 @@ public final class LookingTest {
         Check.due("20: no longer there", board.strip(7), INVALID);
     }
 
-    private static void pictureIs(FlipBoard board, int message, int shift, int... bits) {
+    private static void pictureIs(Board board, int message, int shift, int... bits) {
         Check.due("21: all columns", board.count(Boards.WIDTH), bits.length);
         for (int column = 0; column < bits.length; column++) {
             String what = "21: message " + message + ", shift " + shift + ", column " + column;
@@ -178,7 +178,7 @@ public final class LookingTest {
     }
 
     private static void pictureInTheMiddle() {
-        FlipBoard board = Boards.withText(7, "a=01; b=7f40; e=0102030405; >a; >b; >e; >a_b; >q; >eq; >aa;");
+        Board board = Boards.withText(7, "a=01; b=7f40; e=0102030405; >a; >b; >e; >a_b; >q; >eq; >aa;");
         pictureIs(board, 0, 0, 0, 0, 0, 1, 0, 0, 0);
         pictureIs(board, 0, -2, 0, 1, 0, 0, 0, 0, 0);
         pictureIs(board, 0, -1, 0, 0, 1, 0, 0, 0, 0);
@@ -200,7 +200,7 @@ public final class LookingTest {
     }
 
     private static void pictureOfALongStrip() {
-        FlipBoard board = Boards.withText(6, "a=0102030405; b=0607; >aa; >ab; >aaaaaaaaaaaa;");
+        Board board = Boards.withText(6, "a=0102030405; b=0607; >aa; >ab; >aaaaaaaaaaaa;");
         pictureIs(board, 0, 0, 1, 2, 3, 4, 5, 0);
         pictureIs(board, 0, 2, 0, 0, 1, 2, 3, 4);
         pictureIs(board, 0, 1, 0, 1, 2, 3, 4, 5);
@@ -219,7 +219,7 @@ public final class LookingTest {
     }
 
     private static void pictureArguments() {
-        FlipBoard board = Boards.withText(6, "a=01; >a;");
+        Board board = Boards.withText(6, "a=01; >a;");
         Check.due("21: message -1", board.picture(-1, 0, 0), INVALID);
         Check.due("21: message 1", board.picture(1, 0, 0), INVALID);
         Check.due("21: message greatest", board.picture(Integer.MAX_VALUE, 0, 0), INVALID);
@@ -233,7 +233,7 @@ public final class LookingTest {
     }
 
     private static void power() {
-        FlipBoard board = Boards.withText(6, "a=7f; >a;");
+        Board board = Boards.withText(6, "a=7f; >a;");
         int[] wrong = {0, 21, -1, Integer.MIN_VALUE, Integer.MAX_VALUE};
         for (int ago : wrong) {
             Check.due("22: wrong ago", board.power(ago), INVALID);
@@ -252,7 +252,7 @@ public final class LookingTest {
     }
 
     private static void powerOfTwentySeconds() {
-        FlipBoard board = Boards.withText(40, "a=7f7f7f7f7f; >aaaaaaaaaaaa;");
+        Board board = Boards.withText(40, "a=7f7f7f7f7f; >aaaaaaaaaaaa;");
         board.setNumber(0, 50);
         board.show(0, 0);
         board.setNumber(0, 2);
@@ -265,9 +265,10 @@ public final class LookingTest {
             // with one unit left ahead of the next column the last one is not used
             used[second] = board.count(Boards.POWER) - all;
             all += used[second];
+            Board looking = board.again();
             for (int ago = 1; ago <= 20; ago++) {
                 int want = ago <= second + 1 ? used[second + 1 - ago] : NONE;
-                Check.due("22: of twenty", board.power(ago), want);
+                Check.due("22: of twenty", looking.power(ago), want);
             }
         }
         Check.due("22: the first second", used[0], 2);
@@ -275,12 +276,12 @@ public final class LookingTest {
     }
 
     private static void nothingChanges() {
-        FlipBoard board = Boards.withText(8, "a=7f; >a; >aa;");
+        Board board = Boards.withText(8, "a=7f; >a; >aa;");
         board.jam(3, 0);
         board.show(0, 0);
         board.pass(1);
         Boards.type(board, "a=");
-        String before = Boards.lookWithText(board);
+        String before = board.whole();
         for (int i = -1; i < 16; i++) {
             board.count(i);
             board.column(i, 0);
@@ -291,6 +292,6 @@ public final class LookingTest {
             board.picture(0, 1, i);
             board.power(i);
         }
-        Check.that("15 to 22: looking changes nothing", Boards.lookWithText(board).equals(before));
+        Check.same("15 to 22: looking changes nothing", board.whole(), before);
     }
 }

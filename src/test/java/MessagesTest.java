@@ -21,7 +21,7 @@ public final class MessagesTest {
     }
 
     private static void addMessage() {
-        FlipBoard board = new FlipBoard();
+        Board board = new Board();
         Check.due("5: first -1", board.addMessage(-1, 0), INVALID);
         Check.due("5: first 27", board.addMessage(27, 0), INVALID);
         Check.due("5: second -2", board.addMessage(0, -2), INVALID);
@@ -51,7 +51,7 @@ public final class MessagesTest {
     }
 
     private static void removeMessage() {
-        FlipBoard board = new FlipBoard();
+        Board board = new Board();
         Check.due("6: none there", board.removeMessage(0), INVALID);
         Boards.load(board, ">abcdefghijkl;>m;>no;>pqr;>s;>t;>uv;>wxyz;");
         Check.due("6: -1", board.removeMessage(-1), INVALID);
@@ -71,7 +71,7 @@ public final class MessagesTest {
         Check.due("6: none left", board.removeMessage(0), INVALID);
     }
 
-    private static void messagesAre(FlipBoard board, String[] messages) {
+    private static void messagesAre(Board board, String[] messages) {
         Check.due("messages", board.count(Boards.MESSAGES), messages.length);
         for (int message = 0; message < messages.length; message++) {
             String characters = messages[message];
@@ -86,7 +86,7 @@ public final class MessagesTest {
     }
 
     private static void removedMessageStaysAimed() {
-        FlipBoard board = Boards.withText(6, "a=7f; >a;");
+        Board board = Boards.withText(6, "a=7f; >a;");
         board.show(0, 0);
         board.removeMessage(0);
         Check.due("6: the aim stays", board.column(2, 1), 127);
@@ -94,7 +94,7 @@ public final class MessagesTest {
     }
 
     private static void appendCharacter() {
-        FlipBoard board = new FlipBoard();
+        Board board = new Board();
         Check.due("7: -1", board.appendCharacter(-1), INVALID);
         Check.due("7: 256", board.appendCharacter(256), INVALID);
         Check.due("7: least", board.appendCharacter(Integer.MIN_VALUE), INVALID);
@@ -112,7 +112,7 @@ public final class MessagesTest {
     }
 
     private static void clearText() {
-        FlipBoard board = new FlipBoard();
+        Board board = new Board();
         Check.due("8: empty", board.clearText(), 0);
         Boards.type(board, "a=7f;");
         Check.due("8: five", board.clearText(), 5);
@@ -129,7 +129,7 @@ public final class MessagesTest {
     }
 
     private static void loadItems() {
-        FlipBoard board = new FlipBoard();
+        Board board = new Board();
         Check.due("9: empty", Boards.load(board, ""), 0);
         Check.due("9: empty is saved too", board.count(Boards.SAVED), 1);
         Check.due("9: a letter", Boards.load(board, "z=007f0a3c45;"), 1);
@@ -160,7 +160,7 @@ public final class MessagesTest {
     }
 
     private static void loadSpaces() {
-        FlipBoard board = new FlipBoard();
+        Board board = new Board();
         Check.due("9: spaces alone", Boards.load(board, "   "), 0);
         Check.due("9: spaces everywhere", Boards.load(board, "  a = 01  02 ; > b  _ a ;  "), 2);
         Check.due("9: two columns", board.letter(0, 1), 2);
@@ -211,7 +211,7 @@ public final class MessagesTest {
         String[] texts = {";", "=", "_", "A=00;", "0", " ;", "a=00; ;", "{=00;", "`=00;", "<a;"};
         int[] errors = {0, 0, 0, 0, 0, 1, 6, 0, 0, 0};
         errorsAre(texts, errors);
-        FlipBoard board = new FlipBoard();
+        Board board = new Board();
         board.appendCharacter(255);
         Check.due("9: code 255", board.load(), -2000);
     }
@@ -219,12 +219,12 @@ public final class MessagesTest {
     private static void errorsAre(String[] texts, int[] errors) {
         Check.due("as many errors as texts", errors.length, texts.length);
         for (int i = 0; i < texts.length; i++) {
-            Check.due("9: '" + texts[i] + "'", Boards.load(new FlipBoard(), texts[i]), -2000 - errors[i]);
+            Check.due("9: '" + texts[i] + "'", Boards.load(new Board(), texts[i]), -2000 - errors[i]);
         }
     }
 
     private static void loadFullOfMessages() {
-        FlipBoard board = new FlipBoard();
+        Board board = new Board();
         Check.due("9: nine", Boards.load(board, ">a;>a;>a;>a;>a;>a;>a;>a;>a;"), -2024);
         Check.due("9: none of them", board.count(Boards.MESSAGES), 0);
         Check.due("9: eight", Boards.load(board, ">a;>b;>c;>d;>e;>f;>g;>h; a=01;"), 9);
@@ -238,11 +238,11 @@ public final class MessagesTest {
     }
 
     private static void loadKeepsTextOnError() {
-        FlipBoard board = new FlipBoard();
+        Board board = new Board();
         Boards.load(board, "a=0102;>a;");
-        String before = Boards.look(board);
+        String before = board.look();
         Check.due("9: error behind good items", Boards.load(board, "a=7f;b=01;>ab;c=8"), -2016);
-        Check.that("9: nothing changes", Boards.look(board).equals(before));
+        Check.same("9: nothing changes", board.look(), before);
         Check.due("9: nothing saved", board.count(Boards.SAVED), 1);
         Check.due("9: the text is kept", board.count(Boards.TEXT), 17);
         Check.due("9: the same error again", board.load(), -2016);

@@ -9,7 +9,7 @@ import java.util.List;
  * The document once more, written another way: dot by dot, with texts and lists, every order tried.
  * ModelTest compares its answers with those of FlipBoard.
  */
-final class Model {
+final class Model implements Calls {
     private static final int INVALID = -1001;
     private static final int ILLEGAL = -1002;
     private static final int FULL = -1003;
@@ -118,7 +118,8 @@ final class Model {
         return world.dots.get(column).get(row);
     }
 
-    int begin(int columns) {
+    @Override
+    public int begin(int columns) {
         if (!within(columns, 6, 40)) {
             return INVALID;
         }
@@ -131,7 +132,8 @@ final class Model {
         return previous;
     }
 
-    int setNumber(int what, int value) {
+    @Override
+    public int setNumber(int what, int value) {
         boolean right = what == 0 && within(value, 2, 50)
             || what == 1 && within(value, 0, 2)
             || what == 2 && within(value, 1, 200);
@@ -144,7 +146,8 @@ final class Model {
         return previous;
     }
 
-    int setColumn(int letter, int index, int bits) {
+    @Override
+    public int setColumn(int letter, int index, int bits) {
         if (!within(letter, 0, 25) || !within(bits, 0, 127)
             || !within(index, 0, Math.min(4, world.letters.get(letter).size()))) {
             return INVALID;
@@ -159,7 +162,8 @@ final class Model {
         return columns.size();
     }
 
-    int addMessage(int first, int second) {
+    @Override
+    public int addMessage(int first, int second) {
         if (!within(first, 0, 26) || !within(second, -1, 26)) {
             return INVALID;
         }
@@ -172,7 +176,8 @@ final class Model {
         return world.messages.size() - 1;
     }
 
-    int removeMessage(int message) {
+    @Override
+    public int removeMessage(int message) {
         if (noMessage(message)) {
             return INVALID;
         }
@@ -181,7 +186,8 @@ final class Model {
         return world.messages.size();
     }
 
-    int appendCharacter(int character) {
+    @Override
+    public int appendCharacter(int character) {
         if (!within(character, 0, 255)) {
             return INVALID;
         }
@@ -192,7 +198,8 @@ final class Model {
         return text.length();
     }
 
-    int clearText() {
+    @Override
+    public int clearText() {
         int previous = text.length();
         text = "";
         return previous;
@@ -254,7 +261,8 @@ final class Model {
         into.messages.add(message);
     }
 
-    int load() {
+    @Override
+    public int load() {
         World into = world.copy();
         int items = 0;
         place = 0;
@@ -345,7 +353,8 @@ final class Model {
         return pictureOf(message, how == 1 ? bestShift(message) : 0);
     }
 
-    int show(int message, int how) {
+    @Override
+    public int show(int message, int how) {
         if (noMessage(message) || !within(how, 0, 1)) {
             return INVALID;
         }
@@ -354,13 +363,15 @@ final class Model {
         return dueDots();
     }
 
-    int darken() {
+    @Override
+    public int darken() {
         save();
         aimAt(new boolean[width()][7]);
         return dueDots();
     }
 
-    int jam(int column, int row) {
+    @Override
+    public int jam(int column, int row) {
         if (noDot(column, row)) {
             return INVALID;
         }
@@ -372,7 +383,8 @@ final class Model {
         return dot(column, row).flips;
     }
 
-    int mend(int column, int row) {
+    @Override
+    public int mend(int column, int row) {
         if (noDot(column, row)) {
             return INVALID;
         }
@@ -422,7 +434,8 @@ final class Model {
         dot.stuck = dot.flips >= world.numbers[2];
     }
 
-    int pass(int seconds) {
+    @Override
+    public int pass(int seconds) {
         if (!within(seconds, 1, 200)) {
             return INVALID;
         }
@@ -433,7 +446,8 @@ final class Model {
         return dueDots();
     }
 
-    int count(int what) {
+    @Override
+    public int count(int what) {
         if (!within(what, 0, 14)) {
             return INVALID;
         }
@@ -456,7 +470,8 @@ final class Model {
         return counts[what];
     }
 
-    int column(int column, int what) {
+    @Override
+    public int column(int column, int what) {
         if (!within(column, 0, width() - 1) || !within(what, 0, 3)) {
             return INVALID;
         }
@@ -469,11 +484,13 @@ final class Model {
         return bits;
     }
 
-    int flips(int column, int row) {
+    @Override
+    public int flips(int column, int row) {
         return noDot(column, row) ? INVALID : dot(column, row).flips;
     }
 
-    int letter(int letter, int index) {
+    @Override
+    public int letter(int letter, int index) {
         if (!within(letter, 0, 25) || index < 0) {
             return INVALID;
         }
@@ -481,7 +498,8 @@ final class Model {
         return index < columns.size() ? columns.get(index) : NONE;
     }
 
-    int message(int message, int index) {
+    @Override
+    public int message(int message, int index) {
         if (noMessage(message) || index < 0) {
             return INVALID;
         }
@@ -489,11 +507,13 @@ final class Model {
         return index < characters.length() ? CHARACTERS.indexOf(characters.charAt(index)) : NONE;
     }
 
-    int strip(int message) {
+    @Override
+    public int strip(int message) {
         return noMessage(message) ? INVALID : stripOf(world.messages.get(message)).size();
     }
 
-    int picture(int message, int shift, int column) {
+    @Override
+    public int picture(int message, int shift, int column) {
         if (noMessage(message) || !within(shift, -2, 2) || !within(column, 0, width() - 1)) {
             return INVALID;
         }
@@ -504,7 +524,8 @@ final class Model {
         return bits;
     }
 
-    int power(int ago) {
+    @Override
+    public int power(int ago) {
         if (!within(ago, 1, 20)) {
             return INVALID;
         }
@@ -512,7 +533,8 @@ final class Model {
         return ago > seconds ? NONE : world.powers.get(seconds - ago);
     }
 
-    int bestShift(int message) {
+    @Override
+    public int bestShift(int message) {
         if (noMessage(message)) {
             return INVALID;
         }
@@ -526,14 +548,16 @@ final class Model {
         return shifts.get(0);
     }
 
-    int due(int message, int how) {
+    @Override
+    public int due(int message, int how) {
         if (noMessage(message) || !within(how, 0, 1)) {
             return INVALID;
         }
         return differing(pictureAs(message, how), shownPicture(), false);
     }
 
-    int secondsFor(int message, int how) {
+    @Override
+    public int secondsFor(int message, int how) {
         if (noMessage(message) || !within(how, 0, 1)) {
             return INVALID;
         }
@@ -549,14 +573,16 @@ final class Model {
         return seconds <= 300 ? seconds : NONE;
     }
 
-    int between(int a, int b) {
+    @Override
+    public int between(int a, int b) {
         if (noMessage(a) || noMessage(b)) {
             return INVALID;
         }
         return differing(pictureOf(a, 0), pictureOf(b, 0), false);
     }
 
-    int bestOrder(int messages, int what) {
+    @Override
+    public int bestOrder(int messages, int what) {
         List<Integer> members = new ArrayList<>();
         for (int bit = 0; bit < 32; bit++) {
             if ((messages >>> bit) % 2 == 1) {
@@ -593,7 +619,8 @@ final class Model {
         }
     }
 
-    int undo() {
+    @Override
+    public int undo() {
         if (saved.isEmpty()) {
             return ILLEGAL;
         }

@@ -1,7 +1,8 @@
 /** Long runs of mixed calls, whose answers the model tells; all promises together. */
 public final class ModelTest {
     private static final int RUNS = 400;
-    private static final int CALLS = 512;
+    /** Far enough from the last call to leave room for a look. */
+    private static final int LOOK_BEHIND = 380;
     private static final int[] EDGES = {
         Integer.MIN_VALUE, Integer.MAX_VALUE, -1, -2, -3, 5, 6, 7, 8, 26, 27, 40, 41, 127, 128, 255, 256,
     };
@@ -32,26 +33,30 @@ public final class ModelTest {
     }
 
     private void compare(int run) {
-        FlipBoard board = new FlipBoard();
+        Board board = new Board();
         Model model = new Model();
-        int calls = 0;
-        while (calls < CALLS) {
-            if (draw(12) == 0) {
-                String text = draw(4) == 0 ? signs() : items();
-                calls += text.length() + 1;
-                if (calls < CALLS) {
-                    type(board, model, text, "run " + run + ", call " + calls);
-                }
-            } else {
-                int[] call = {pick(), 0, 0, 0};
-                arguments(call);
-                calls++;
-                String name = "run " + run + ", call " + calls + ", " + call[0]
-                    + "(" + call[1] + ", " + call[2] + ", " + call[3] + ")";
-                Check.due(name, answer(board, call), answer(model, call));
+        boolean looked = false;
+        while (board.calls() < Board.MOST_CALLS) {
+            String where = "run " + run + ", call " + (board.calls() + 1);
+            String text = draw(12) > 0 ? "" : draw(4) == 0 ? signs() : items();
+            if (text.isEmpty()) {
+                one(board, model, where);
+            } else if (board.calls() + text.length() + 2 <= Board.MOST_CALLS) {
+                type(board, model, text, where);
+            }
+            if (!looked && board.calls() >= LOOK_BEHIND) {
+                Check.same(where + ", look", board.look(), Look.at(model));
+                looked = true;
             }
         }
-        lookAtAll(board, model, "run " + run);
+    }
+
+    private void one(Board board, Model model, String where) {
+        int[] call = {pick(), 0, 0, 0};
+        arguments(call);
+        String name = where + ", " + call[0] + "(" + call[1] + ", " + call[2] + ", " + call[3] + ")";
+        int answer = model.call(call[0], call[1], call[2], call[3]);
+        Check.due(name, board.call(call[0], call[1], call[2], call[3]), answer);
     }
 
     private int pick() {
@@ -59,7 +64,7 @@ public final class ModelTest {
         return draw(3) == 0 ? often[draw(often.length)] : 2 + draw(27);
     }
 
-    private void type(FlipBoard board, Model model, String text, String where) {
+    private static void type(Board board, Model model, String text, String where) {
         for (int i = 0; i < text.length(); i++) {
             int code = text.charAt(i);
             Check.due(where + " append", board.appendCharacter(code), model.appendCharacter(code));
@@ -131,95 +136,6 @@ public final class ModelTest {
         }
         if (call[0] == 27 && draw(2) == 0) {
             call[1] = from(1, 255);
-        }
-    }
-
-    private static void lookAtAll(FlipBoard board, Model model, String run) {
-        for (int what = 0; what < 15; what++) {
-            Check.due(run + " count", board.count(what), model.count(what));
-        }
-        for (int column = 0; column < 41; column++) {
-            for (int what = 0; what < 7; what++) {
-                Check.due(run + " column", board.column(column, what), model.column(column, what));
-                Check.due(run + " flips", board.flips(column, what), model.flips(column, what));
-            }
-        }
-        for (int number = 0; number < 27; number++) {
-            for (int index = 0; index < 13; index++) {
-                Check.due(run + " letter", board.letter(number, index), model.letter(number, index));
-                Check.due(run + " message", board.message(number, index), model.message(number, index));
-            }
-            Check.due(run + " power", board.power(number), model.power(number));
-        }
-    }
-
-    private static int answer(FlipBoard board, int[] call) {
-        int a = call[1];
-        int b = call[2];
-        int c = call[3];
-        switch (call[0]) {
-            case 2: return board.begin(a);
-            case 3: return board.setNumber(a, b);
-            case 4: return board.setColumn(a, b, c);
-            case 5: return board.addMessage(a, b);
-            case 6: return board.removeMessage(a);
-            case 7: return board.appendCharacter(a);
-            case 8: return board.clearText();
-            case 9: return board.load();
-            case 10: return board.show(a, b);
-            case 11: return board.darken();
-            case 12: return board.jam(a, b);
-            case 13: return board.mend(a, b);
-            case 14: return board.pass(a);
-            case 15: return board.count(a);
-            case 16: return board.column(a, b);
-            case 17: return board.flips(a, b);
-            case 18: return board.letter(a, b);
-            case 19: return board.message(a, b);
-            case 20: return board.strip(a);
-            case 21: return board.picture(a, b, c);
-            case 22: return board.power(a);
-            case 23: return board.bestShift(a);
-            case 24: return board.due(a, b);
-            case 25: return board.secondsFor(a, b);
-            case 26: return board.between(a, b);
-            case 27: return board.bestOrder(a, b);
-            default: return board.undo();
-        }
-    }
-
-    private static int answer(Model model, int[] call) {
-        int a = call[1];
-        int b = call[2];
-        int c = call[3];
-        switch (call[0]) {
-            case 2: return model.begin(a);
-            case 3: return model.setNumber(a, b);
-            case 4: return model.setColumn(a, b, c);
-            case 5: return model.addMessage(a, b);
-            case 6: return model.removeMessage(a);
-            case 7: return model.appendCharacter(a);
-            case 8: return model.clearText();
-            case 9: return model.load();
-            case 10: return model.show(a, b);
-            case 11: return model.darken();
-            case 12: return model.jam(a, b);
-            case 13: return model.mend(a, b);
-            case 14: return model.pass(a);
-            case 15: return model.count(a);
-            case 16: return model.column(a, b);
-            case 17: return model.flips(a, b);
-            case 18: return model.letter(a, b);
-            case 19: return model.message(a, b);
-            case 20: return model.strip(a);
-            case 21: return model.picture(a, b, c);
-            case 22: return model.power(a);
-            case 23: return model.bestShift(a);
-            case 24: return model.due(a, b);
-            case 25: return model.secondsFor(a, b);
-            case 26: return model.between(a, b);
-            case 27: return model.bestOrder(a, b);
-            default: return model.undo();
         }
     }
 }

@@ -14,7 +14,7 @@ public final class SettingsTest {
     }
 
     private static void newObject() {
-        FlipBoard board = new FlipBoard();
+        Board board = new Board();
         int[] counts = {20, 10, 0, 100, 0, 0, 0, 0, 0, 0, 0, 0, 0, 0, 0};
         for (int what = 0; what < counts.length; what++) {
             Check.due("1: count " + what, board.count(what), counts[what]);
@@ -34,16 +34,16 @@ public final class SettingsTest {
         Check.due("1: message", board.message(0, 0), INVALID);
         Check.due("1: power", board.power(1), NONE);
         Check.due("1: undo", board.undo(), Boards.ILLEGAL);
-        FlipBoard other = new FlipBoard();
+        Board other = new Board();
         other.setColumn(0, 0, 5);
         other.setNumber(0, 20);
         Check.due("1: objects are apart, letter", board.letter(0, 0), NONE);
         Check.due("1: objects are apart, number", board.count(1), 10);
-        Check.due("1: a later object is new", new FlipBoard().count(1), 10);
+        Check.due("1: a later object is new", new Board().count(1), 10);
     }
 
     private static void begin() {
-        FlipBoard board = new FlipBoard();
+        Board board = new Board();
         Check.due("2: begin 5", board.begin(5), INVALID);
         Check.due("2: begin 41", board.begin(41), INVALID);
         Check.due("2: begin least", board.begin(Integer.MIN_VALUE), INVALID);
@@ -58,7 +58,7 @@ public final class SettingsTest {
     }
 
     private static void beginKeeps() {
-        FlipBoard board = Boards.withText(40, "a=7f7f7f7f7f; b=0102; >aaaaaaaaaaaa; >b_;");
+        Board board = Boards.withText(40, "a=7f7f7f7f7f; b=0102; >aaaaaaaaaaaa; >b_;");
         board.setNumber(0, 50);
         board.setNumber(1, 2);
         board.setNumber(2, 1);
@@ -74,14 +74,11 @@ public final class SettingsTest {
             Check.due("2: count behind begin " + what, board.count(what), counts[what]);
         }
         board.begin(40);
-        for (int column = 0; column < 40; column++) {
-            for (int what = 0; what < 4; what++) {
-                Check.due("2: column behind begin", board.column(column, what), 0);
-            }
-            for (int row = 0; row < 7; row++) {
-                Check.due("2: flips behind begin", board.flips(column, row), 0);
-            }
-        }
+        Board other = Boards.withText(40, "a=7f7f7f7f7f; b=0102; >aaaaaaaaaaaa; >b_;");
+        other.setNumber(0, 50);
+        other.setNumber(1, 2);
+        other.setNumber(2, 1);
+        Check.same("2: all is new but letters, messages and numbers", board.look(), other.look());
         Check.due("2: power behind begin", board.power(1), NONE);
         Check.due("2: letter stays", board.letter(1, 1), 2);
         Check.due("2: message stays", board.message(1, 1), 26);
@@ -94,7 +91,7 @@ public final class SettingsTest {
         int[] first = {10, 0, 100};
         int[] least = {2, 0, 1};
         int[] most = {50, 2, 200};
-        FlipBoard board = new FlipBoard();
+        Board board = new Board();
         for (int what = 0; what < 3; what++) {
             Check.due("3: below " + what, board.setNumber(what, least[what] - 1), INVALID);
             Check.due("3: above " + what, board.setNumber(what, most[what] + 1), INVALID);
@@ -110,7 +107,7 @@ public final class SettingsTest {
         Check.due("3: what 3", board.setNumber(3, 5), INVALID);
         Check.due("3: what least", board.setNumber(Integer.MIN_VALUE, 5), INVALID);
         Check.due("3: what greatest", board.setNumber(Integer.MAX_VALUE, 5), INVALID);
-        FlipBoard other = new FlipBoard();
+        Board other = new Board();
         other.setNumber(0, 11);
         other.setNumber(0, 11);
         other.setNumber(0, 99);
@@ -119,7 +116,7 @@ public final class SettingsTest {
 
     /** Dots that are stuck stay so; a dot with as many flips sticks with its next one. */
     private static void setNumberOnDots() {
-        FlipBoard board = Boards.withText(6, "a=03; b=01; >a; >b;");
+        Board board = Boards.withText(6, "a=03; b=01; >a; >b;");
         board.setNumber(2, 3);
         for (int i = 0; i < 2; i++) {
             board.show(0, 0);
@@ -150,7 +147,7 @@ public final class SettingsTest {
     }
 
     private static void setColumn() {
-        FlipBoard board = new FlipBoard();
+        Board board = new Board();
         Check.due("4: index 1 of none", board.setColumn(0, 1, 1), INVALID);
         for (int index = 0; index < 5; index++) {
             Check.due("4: add", board.setColumn(25, index, 10 + index), index + 1);

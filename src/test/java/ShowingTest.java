@@ -22,14 +22,14 @@ public final class ShowingTest {
         Check.end();
     }
 
-    private static void columnsAre(String what, FlipBoard board, int side, int... bits) {
+    private static void columnsAre(String what, Board board, int side, int... bits) {
         for (int column = 0; column < bits.length; column++) {
             Check.due(what + ", column " + column, board.column(column, side), bits[column]);
         }
     }
 
     private static void show() {
-        FlipBoard board = Boards.withText(8, "a=7f0102; >a; >aa;");
+        Board board = Boards.withText(8, "a=7f0102; >a; >aa;");
         Check.due("10: no message 2", board.show(2, 0), INVALID);
         Check.due("10: no message -1", board.show(-1, 0), INVALID);
         Check.due("10: no message 8", board.show(8, 1), INVALID);
@@ -47,12 +47,12 @@ public final class ShowingTest {
         Check.due("10: back", board.show(0, 0), 23);
         board.pass(9);
         Check.due("10: the same", board.show(0, 0), 0);
-        FlipBoard narrow = Boards.withText(6, "a=7f7f7f7f7f; >aa;");
+        Board narrow = Boards.withText(6, "a=7f7f7f7f7f; >aa;");
         Check.due("10: what lies beside the board is not due", narrow.show(0, 0), 35);
     }
 
     private static void showStays() {
-        FlipBoard board = Boards.withText(8, "a=7f; >a;");
+        Board board = Boards.withText(8, "a=7f; >a;");
         board.show(0, 0);
         board.setColumn(0, 0, 1);
         board.setColumn(0, 1, 1);
@@ -63,7 +63,7 @@ public final class ShowingTest {
     }
 
     private static void showBestShift() {
-        FlipBoard board = Boards.withText(8, "a=7f; b=03; >a; >b;");
+        Board board = Boards.withText(8, "a=7f; b=03; >a; >b;");
         board.jam(3, 0);
         board.show(0, 0);
         board.pass(2);
@@ -77,7 +77,7 @@ public final class ShowingTest {
     }
 
     private static void darken() {
-        FlipBoard board = Boards.withText(6, "a=7f; >a;");
+        Board board = Boards.withText(6, "a=7f; >a;");
         board.show(0, 0);
         Check.due("11: nothing shown yet", board.darken(), 0);
         columnsAre("11: aim", board, 1, 0, 0, 0, 0, 0, 0);
@@ -92,7 +92,7 @@ public final class ShowingTest {
     }
 
     private static void jam() {
-        FlipBoard board = Boards.withText(6, "a=7f; >a;");
+        Board board = Boards.withText(6, "a=7f; >a;");
         Check.due("12: column -1", board.jam(-1, 0), INVALID);
         Check.due("12: column 6", board.jam(6, 0), INVALID);
         Check.due("12: column greatest", board.jam(Integer.MAX_VALUE, 0), INVALID);
@@ -126,7 +126,7 @@ public final class ShowingTest {
     }
 
     private static void mend() {
-        FlipBoard board = Boards.withText(6, "a=7f; >a;");
+        Board board = Boards.withText(6, "a=7f; >a;");
         Check.due("13: column -1", board.mend(-1, 0), INVALID);
         Check.due("13: column 6", board.mend(6, 0), INVALID);
         Check.due("13: column least", board.mend(Integer.MIN_VALUE, 0), INVALID);
@@ -165,7 +165,7 @@ public final class ShowingTest {
     }
 
     private static void passArguments() {
-        FlipBoard board = new FlipBoard();
+        Board board = new Board();
         Check.due("14: 0", board.pass(0), INVALID);
         Check.due("14: 201", board.pass(201), INVALID);
         Check.due("14: -1", board.pass(-1), INVALID);
@@ -181,8 +181,8 @@ public final class ShowingTest {
     }
 
     /** Columns of 3, 1 and 7 dots; 10 units at first. */
-    private static FlipBoard threeColumns(int order, int power) {
-        FlipBoard board = Boards.withText(6, "a=54007f; b=08; >a; >ab;");
+    private static Board threeColumns(int order, int power) {
+        Board board = Boards.withText(6, "a=54007f; b=08; >a; >ab;");
         board.setColumn(0, 1, 8);
         board.setNumber(1, order);
         board.setNumber(0, power);
@@ -191,7 +191,7 @@ public final class ShowingTest {
     }
 
     private static void passFromTheLeft() {
-        FlipBoard board = threeColumns(0, 10);
+        Board board = threeColumns(0, 10);
         Check.due("14: left, first", board.pass(1), 4);
         columnsAre("14: left", board, 0, 0, 0x54, 8, 7, 0, 0);
         Check.due("14: left, power", board.power(1), 10);
@@ -204,7 +204,7 @@ public final class ShowingTest {
     }
 
     private static void passFromTheRight() {
-        FlipBoard board = threeColumns(1, 5);
+        Board board = threeColumns(1, 5);
         Check.due("14: right, first", board.pass(1), 7);
         columnsAre("14: right", board, 0, 0, 0, 0, 15, 0, 0);
         Check.due("14: right, second", board.pass(1), 4);
@@ -217,20 +217,20 @@ public final class ShowingTest {
     }
 
     private static void passByDueDots() {
-        FlipBoard board = threeColumns(2, 10);
+        Board board = threeColumns(2, 10);
         Check.due("14: greatest first", board.pass(1), 3);
         columnsAre("14: seven and one of three", board, 0, 0, 4, 0, 127, 0, 0);
         Check.due("14: greatest, power", board.power(1), 10);
         Check.due("14: greatest, the rest", board.pass(1), 0);
         Check.due("14: greatest, power of the rest", board.power(1), 5);
-        FlipBoard other = threeColumns(2, 9);
+        Board other = threeColumns(2, 9);
         Check.due("14: only one unit left", other.pass(1), 4);
         Check.due("14: it is not used", other.power(1), 8);
     }
 
     /** In each second the due dots are counted anew; of several columns the leftmost is first. */
     private static void passByDueDotsAnew() {
-        FlipBoard board = Boards.withText(6, "a=1f1f07; >a;");
+        Board board = Boards.withText(6, "a=1f1f07; >a;");
         board.setNumber(1, 2);
         board.setNumber(0, 4);
         board.show(0, 0);
@@ -244,7 +244,7 @@ public final class ShowingTest {
             Check.due("14: anew, power", board.power(1), power[second]);
         }
         Check.due("14: anew, none due", board.count(Boards.DUE), 0);
-        FlipBoard edge = Boards.withText(6, "a=0100000003; >a;");
+        Board edge = Boards.withText(6, "a=0100000003; >a;");
         edge.setNumber(1, 2);
         edge.setNumber(0, 3);
         edge.show(0, 0);
@@ -255,7 +255,7 @@ public final class ShowingTest {
     }
 
     private static void passTriesStuckDots() {
-        FlipBoard board = Boards.withText(6, "a=7f; >a;");
+        Board board = Boards.withText(6, "a=7f; >a;");
         board.setNumber(0, 4);
         board.jam(2, 0);
         board.jam(2, 3);
@@ -283,7 +283,7 @@ public final class ShowingTest {
     }
 
     private static void passEndsLives() {
-        FlipBoard board = Boards.withText(6, "a=03; >a;");
+        Board board = Boards.withText(6, "a=03; >a;");
         board.setNumber(2, 2);
         board.show(0, 0);
         board.pass(1);
@@ -299,7 +299,7 @@ public final class ShowingTest {
         Check.due("14: no third flip", board.flips(2, 0), 2);
         Check.due("14: flips in all", board.count(Boards.FLIPS), 4);
         Check.due("14: tries in all", board.count(Boards.TRIES), 2);
-        FlipBoard longest = Boards.withText(6, "a=01; >a;");
+        Board longest = Boards.withText(6, "a=01; >a;");
         for (int flip = 1; flip <= 100; flip++) {
             longest.show(0, 0);
             if (flip % 2 == 0) {
@@ -312,7 +312,7 @@ public final class ShowingTest {
     }
 
     private static void passLeavesAUnit() {
-        FlipBoard board = Boards.withText(6, "a=010101; >a;");
+        Board board = Boards.withText(6, "a=010101; >a;");
         board.setNumber(0, 3);
         board.show(0, 0);
         Check.due("14: a unit left ahead of a column", board.pass(1), 2);
@@ -320,7 +320,7 @@ public final class ShowingTest {
         Check.due("14: nor kept", board.pass(1), 1);
         Check.due("14: the second second", board.power(1), 2);
         Check.due("14: power in all", board.count(Boards.POWER), 4);
-        FlipBoard least = Boards.withText(6, "a=03; >a;");
+        Board least = Boards.withText(6, "a=03; >a;");
         least.setNumber(0, 2);
         least.show(0, 0);
         Check.due("14: the least power", least.pass(1), 1);
@@ -329,7 +329,7 @@ public final class ShowingTest {
     }
 
     private static void passWithGreatPower() {
-        FlipBoard board = Boards.withText(40, "a=7f7f7f7f7f; >aaaaaaaaaaaa;");
+        Board board = Boards.withText(40, "a=7f7f7f7f7f; >aaaaaaaaaaaa;");
         board.setNumber(0, 50);
         Check.due("14: 34 full columns", board.show(0, 0), 238);
         Check.due("14: six columns and a dot", board.pass(1), 195);
