@@ -3,8 +3,18 @@ final class Check {
     private static final int MOST_TOLD = 50;
     private static int right = 0;
     private static int wrong = 0;
+    private static String heading = "";
 
     private Check() {
+    }
+
+    /** What follows is told with this heading, until there is another. */
+    static void under(String words) {
+        heading = words.isEmpty() ? "" : words + ": ";
+    }
+
+    static int answers() {
+        return right + wrong;
     }
 
     static void due(String call, long got, long want) {
@@ -14,7 +24,7 @@ final class Check {
         }
         wrong++;
         if (wrong <= MOST_TOLD) {
-            System.out.println(call + " answered " + got + ", due is " + want);
+            System.out.println(heading + call + " answered " + got + ", due is " + want);
         }
     }
 
