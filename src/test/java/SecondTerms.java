@@ -13,6 +13,7 @@ final class SecondTerms {
         Document.test(SECONDS, "1 from the right", SecondTerms::fromTheRight);
         Document.test(SECONDS, "2 by the number of their due dots at the beginning of the second, the greatest"
             + " first", SecondTerms::greatestFirst);
+        Document.test(SECONDS, "by the number of their due dots", SecondTerms::knownDotsDoNotCount);
         Document.test(SECONDS, "of several the leftmost first", SecondTerms::leftmostFirst);
         Document.test(SECONDS, "1 unit is used for the column (in each second in which it is gone through)",
             SecondTerms::unitOfTheColumn);
@@ -132,6 +133,27 @@ final class SecondTerms {
         Board anew = showing(6, "1f0f00", 4, 2);
         anew.pass(2);
         Edges.shows("counted anew in the second second of one call", anew, 0, 7, 7, 0, 0, 0);
+        Board edges = Boards.withText(6, "e=0301000007; >e;");
+        edges.setNumber(0, 2);
+        edges.setNumber(1, 2);
+        edges.show(0, 0);
+        int[][] shown = {{0, 0, 1}, {1, 0, 1}, {1, 0, 3}, {3, 0, 3}, {3, 1, 3}, {3, 1, 7}};
+        for (int[] columns : shown) {
+            edges.pass(1);
+            Edges.shows("with column 0", edges, columns[0], columns[1], 0, 0, columns[2], 0);
+        }
+        Board wide = Boards.withText(40, "e=0100000001; b=01000003; >eeeeeeb;");
+        wide.setNumber(0, 2);
+        wide.setNumber(1, 2);
+        wide.show(0, 0);
+        wide.pass(1);
+        Check.due("with column 39", wide.column(39, 0), 1);
+        wide.pass(1);
+        Check.due("then column 0, the leftmost", wide.column(0, 0), 1);
+        Check.due("not yet column 4", wide.column(4, 0), 0);
+    }
+
+    private static void knownDotsDoNotCount() {
         Board known = Boards.withText(6, "a=0f07; >a;");
         known.jam(2, 0);
         known.jam(2, 1);

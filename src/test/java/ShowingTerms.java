@@ -15,6 +15,10 @@ final class ShowingTerms {
         Document.test(SHOWING, "the best shift: of -2 to 2", ShowingTerms::noFartherThanTwo);
         Document.test(SHOWING, "that with the fewest dots that are known to be stuck on the other side than the"
             + " picture tells", ShowingTerms::fewestKnownDots);
+        Document.test(SHOWING, "known to be stuck on the other side than the picture tells",
+            ShowingTerms::knownDotsBesideTheStrip);
+        Document.test(SHOWING, "known to be stuck on the other side than the picture tells",
+            ShowingTerms::knownDotsAtTheEdges);
         Document.test(SHOWING, "of several that with the fewest due dots", ShowingTerms::fewestDueDots);
         Document.test(SHOWING, "of several the one nearest to 0", ShowingTerms::nearest);
         Document.test(SHOWING, "of two of these the negative one", ShowingTerms::negative);
@@ -136,19 +140,37 @@ final class ShowingTerms {
         Check.due("of one and one the nearest", several.bestShift(0), -1);
         several.mend(5, 1);
         Check.due("none", several.bestShift(0), 2);
-        Board beside = Boards.withText(8, "a=7f; b=01; >a; >qqqqb; >b;");
-        beside.show(1, 0);
-        beside.pass(1);
-        beside.jam(5, 0);
-        beside.show(2, 0);
-        beside.pass(2);
-        beside.darken();
-        beside.pass(1);
-        Check.due("a bright dot beside the strip is known", beside.column(5, 3), 1);
-        Check.due("it is met with 2", beside.bestShift(0), 2);
-        beside.mend(5, 0);
-        beside.pass(1);
-        Check.due("dark and free again", beside.bestShift(0), 0);
+    }
+
+    private static void knownDotsBesideTheStrip() {
+        Board board = Boards.withText(8, "a=7f; b=01; c=7f0000; >a; >qqqqb; >c;");
+        board.show(1, 0);
+        board.pass(1);
+        board.jam(5, 0);
+        board.show(2, 0);
+        board.pass(2);
+        Check.due("bright and known", board.column(5, 3), 1);
+        Check.due("all of message 0 is bright at -1", board.column(2, 0), 127);
+        Check.due("the known dot is met with 2", board.bestShift(0), 2);
+        Check.due("though thirteen are due there", board.due(0, 1), 6 + 7);
+        board.mend(5, 0);
+        Check.due("not stuck any more", board.bestShift(0), -1);
+    }
+
+    private static void knownDotsAtTheEdges() {
+        for (int stuck = 0; stuck < 2; stuck++) {
+            Board board = Boards.withText(6, "a=7f; b=7f; c=007f; e=7f00000000; >a; >e; >c; >qqqqqb;");
+            if (stuck == 1) {
+                board.jam(0, 0);
+                board.jam(5, 6);
+            }
+            board.show(1, 0);
+            board.pass(1);
+            Check.due("towards column 0", board.bestShift(0), stuck == 1 ? 0 : -2);
+            board.show(3, 0);
+            board.pass(2);
+            Check.due("towards column 5", board.bestShift(2), stuck == 1 ? 0 : 2);
+        }
     }
 
     private static void fewestDueDots() {
