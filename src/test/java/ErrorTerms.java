@@ -7,7 +7,8 @@ final class ErrorTerms {
 
     static void test() {
         Document.test(ERRORS, "A method that returns an error code changes nothing", ErrorTerms::changesNothing);
-        Document.test(ERRORS, "A method that returns an error code changes nothing", ErrorTerms::nothingBetweenOthers);
+        Document.test(ERRORS, "A method that returns an error code changes nothing",
+            ErrorTerms::nothingBetweenOthers);
         Document.test(ERRORS, "If several error codes apply, the one that is named first in the description of the"
             + " method is returned", ErrorTerms::namedFirst);
         Document.test(ERRORS, "NONE is no error, and it is returned only if no error code applies",

@@ -6,7 +6,8 @@ final class ShowingTerms {
     }
 
     static void test() {
-        Document.test(SHOWING, "A dot is due if the aim tells another side than it shows", ShowingTerms::dueOnBothSides);
+        Document.test(SHOWING, "A dot is due if the aim tells another side than it shows",
+            ShowingTerms::dueOnBothSides);
         Document.test(SHOWING, "and it is not known to be stuck", ShowingTerms::notDueIfKnown);
         Document.test(SHOWING, "To show a message means that the aim becomes its picture, as it is then",
             ShowingTerms::asItIsThen);

@@ -25,7 +25,8 @@ final class TextTerms {
         Document.test(TEXT, "(the first digit of a column that is greater than 7 or no such digit",
             TextTerms::firstDigits);
         Document.test(TEXT, "a sixth column, a 13th character", TextTerms::tooMany);
-        Document.test(TEXT, "\">\" if there are 8 messages, with those ahead in the text)", TextTerms::eightMessages);
+        Document.test(TEXT, "\">\" if there are 8 messages, with those ahead in the text)",
+            TextTerms::eightMessages);
         Document.test(TEXT, "If the text ends where something is missing, it is the length of the text",
             TextTerms::somethingMissing);
     }

@@ -15,6 +15,7 @@ final class UndoTerms {
             UndoTerms::everySuccessfulCall);
         Document.test(UNDO, "Every successful call of", UndoTerms::noOtherCall);
         Document.test(UNDO, "which consists of everything but the text", UndoTerms::everythingButTheText);
+        Document.test(UNDO, "which consists of everything but the text", UndoTerms::widthsToo);
         Document.test(UNDO, "At most 6 states are saved", UndoTerms::sixStates);
         Document.test(UNDO, "when a seventh is saved, the oldest one is discarded", UndoTerms::theSeventh);
         Document.test(UNDO, "undo() restores the most recently saved state and discards it", UndoTerms::mostRecent);
@@ -29,13 +30,18 @@ final class UndoTerms {
     }
 
     private static void saves(String what, ToIntFunction<Board> call) {
-        Board board = board();
+        saves(board(), what, call);
+        saves(Edges.busy(), what, call);
+    }
+
+    private static void saves(Board board, String what, ToIntFunction<Board> call) {
         String before = board.look();
+        int saved = board.count(Boards.SAVED);
         Check.that(what + " is successful", call.applyAsInt(board) >= 0);
-        Check.due(what + " saves a state", board.count(Boards.SAVED), 2);
-        Check.due("undo of " + what, board.undo(), 1);
+        Check.due(what + " saves a state", board.count(Boards.SAVED), Math.min(saved + 1, 6));
+        Check.due("undo of " + what, board.undo(), Math.min(saved, 5));
         Check.same("what preceded " + what, board.look(), before);
-        Check.due("the state ahead of it is still saved", board.undo(), 0);
+        Check.due("the state ahead of it is still saved", board.undo(), Math.min(saved, 5) - 1);
     }
 
     private static void everySuccessfulCall() {
@@ -46,12 +52,12 @@ final class UndoTerms {
         saves("setColumn", b -> b.setColumn(0, 1, 8));
         saves("setColumn with the same bits", b -> b.setColumn(0, 0, 127));
         saves("load", b -> Boards.load(b, "a=01;"));
-        saves("load of an empty text", Board::load);
+        saves("load of an empty text", b -> Boards.load(b, ""));
         saves("addMessage", b -> b.addMessage(0, 0));
         saves("removeMessage", b -> b.removeMessage(0));
         saves("show", b -> b.show(1, 1));
         saves("darken, where the aim is dark", Board::darken);
-        saves("jam", b -> b.jam(19, 6));
+        saves("jam", b -> b.jam(5, 6));
         saves("mend of a dot that is not stuck", b -> b.mend(0, 0));
         saves("pass without due dots", b -> b.pass(1));
         Board board = board();
@@ -109,6 +115,25 @@ final class UndoTerms {
         board.undo();
         Check.due("the text that was read does not come back", board.count(Boards.TEXT), 0);
         Check.same("all else does", board.look(), before);
+    }
+
+    /** A board of 40 columns and one of 6 have nothing of each other's dots. */
+    private static void widthsToo() {
+        Board board = Boards.withText(6, "e=7f7f7f7f7f; >eeeeeeeeeeee;");
+        String narrow = board.look();
+        board.begin(40);
+        board.setNumber(2, 1);
+        board.show(0, 0);
+        board.pass(9);
+        String wide = board.look();
+        board.begin(6);
+        board.undo();
+        Check.same("all of the 40 columns", board.look(), wide);
+        for (int undo = 0; undo < 4; undo++) {
+            board.undo();
+        }
+        Check.same("nothing but the 6 columns", board.look(), narrow);
+        Check.due("no stuck dots beside them", board.count(Boards.STUCK), 0);
     }
 
     private static void sixStates() {

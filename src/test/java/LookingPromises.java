@@ -1,64 +1,72 @@
-/** The edges that the promises 15 to 22 name. */
-final class LookEdges {
-    private LookEdges() {
+/** Promises 15 to 22: count, column, flips, letter, message, strip, picture, power. */
+final class LookingPromises {
+    private LookingPromises() {
     }
 
     static void test() {
-        Document.test("Promise 15", "Returns a number", LookEdges::countReturns);
+        Document.test("Promise 15", "Returns a number", LookingPromises::countReturns);
         Document.test("Promise 15", "`what`: 0 W, 1 to 3 the numbers of setNumber(), 4 the number of messages",
-            LookEdges::countSettings);
-        Document.test("Promise 15", "5 of due dots, 6 of stuck dots, 7 of dots that are known to be stuck, 8 of dots"
-            + " that show another side than the aim tells", LookEdges::countDots);
-        Document.test("Promise 15", "9 of all flips (mended dots included)", LookEdges::countFlips);
+            LookingPromises::countSettings);
+        Document.test("Promise 15",
+            "5 of due dots, 6 of stuck dots, 7 of dots that are known to be stuck, 8 of dots"
+            + " that show another side than the aim tells", LookingPromises::countDots);
+        Document.test("Promise 15", "9 of all flips (mended dots included)", LookingPromises::countFlips);
         Document.test("Promise 15", "10 how often a dot was tried and found stuck (all since begin())",
-            LookEdges::countTries);
+            LookingPromises::countTries);
         Document.test("Promise 15", "11 the power used in all, 12 the number of seconds that passed",
-            LookEdges::countSeconds);
+            LookingPromises::countSeconds);
         Document.test("Promise 15", "13 the length of the text, 14 the number of states that are saved for undo()",
-            LookEdges::countTextAndStates);
-        Document.test("Promise 15", "INVALID_ARGUMENT if what is out of range", LookEdges::countRefused);
-        Document.test("Promise 15", "Returns the number", LookEdges::countReturns);
-        Document.test("Promise 16", "Returns a column of the board", LookEdges::columnReturns);
-        Document.test("Promise 16", "`column`: 0 to W - 1", LookEdges::columnColumn);
-        Document.test("Promise 16", "`what`: 0 what is shown, 1 the aim, 2 the stuck dots, 3 those that are known to"
-            + " be stuck", LookEdges::columnWhat);
-        Document.test("Promise 16", "Returns its bits", LookEdges::columnReturns);
-        Document.test("Promise 16", "INVALID_ARGUMENT if an argument is out of range", LookEdges::columnRefused);
-        Document.test("Promise 17", "Returns the number of flips that a dot has made", LookEdges::flipsReturns);
-        Document.test("Promise 17", "`column`: 0 to W - 1", LookEdges::flipsColumn);
-        Document.test("Promise 17", "`row`: 0 to 6", LookEdges::flipsRow);
-        Document.test("Promise 17", "Returns the number;", LookEdges::flipsReturns);
-        Document.test("Promise 17", "INVALID_ARGUMENT if an argument is out of range", LookEdges::flipsRefused);
-        Document.test("Promise 18", "Returns a column of a letter", LookEdges::letterReturns);
-        Document.test("Promise 18", "`letter`: 0 to 25", LookEdges::letterLetter);
-        Document.test("Promise 18", "`index`: 0 for the first one", LookEdges::letterIndex);
-        Document.test("Promise 18", "Returns its bits", LookEdges::letterReturns);
+            LookingPromises::countTextAndStates);
+        Document.test("Promise 15", "INVALID_ARGUMENT if what is out of range", LookingPromises::countRefused);
+        Document.test("Promise 15", "Returns the number", LookingPromises::countReturns);
+        Document.test("Promise 16", "Returns a column of the board", LookingPromises::columnReturns);
+        Document.test("Promise 16", "`column`: 0 to W - 1", LookingPromises::columnColumn);
+        Document.test("Promise 16",
+            "`what`: 0 what is shown, 1 the aim, 2 the stuck dots, 3 those that are known to"
+            + " be stuck", LookingPromises::columnWhat);
+        Document.test("Promise 16", "Returns its bits", LookingPromises::columnReturns);
+        Document.test("Promise 16", "INVALID_ARGUMENT if an argument is out of range",
+            LookingPromises::columnRefused);
+        Document.test("Promise 17", "Returns the number of flips that a dot has made",
+            LookingPromises::flipsReturns);
+        Document.test("Promise 17", "`column`: 0 to W - 1", LookingPromises::flipsColumn);
+        Document.test("Promise 17", "`row`: 0 to 6", LookingPromises::flipsRow);
+        Document.test("Promise 17", "Returns the number;", LookingPromises::flipsReturns);
+        Document.test("Promise 17", "INVALID_ARGUMENT if an argument is out of range",
+            LookingPromises::flipsRefused);
+        Document.test("Promise 18", "Returns a column of a letter", LookingPromises::letterReturns);
+        Document.test("Promise 18", "`letter`: 0 to 25", LookingPromises::letterLetter);
+        Document.test("Promise 18", "`index`: 0 for the first one", LookingPromises::letterIndex);
+        Document.test("Promise 18", "Returns its bits", LookingPromises::letterReturns);
         Document.test("Promise 18", "INVALID_ARGUMENT if letter is out of range or index is negative",
-            LookEdges::letterRefused);
-        Document.test("Promise 18", "NONE if the letter has not so many columns", LookEdges::letterNone);
-        Document.test("Promise 19", "Returns a character of a message", LookEdges::messageReturns);
-        Document.test("Promise 19", "`message`: a message", LookEdges::messageMessage);
-        Document.test("Promise 19", "`index`: 0 for the first one", LookEdges::messageIndex);
-        Document.test("Promise 19", "Returns 0 to 25 for a letter, 26 for a gap", LookEdges::messageReturns);
+            LookingPromises::letterRefused);
+        Document.test("Promise 18", "NONE if the letter has not so many columns", LookingPromises::letterNone);
+        Document.test("Promise 19", "Returns a character of a message", LookingPromises::messageReturns);
+        Document.test("Promise 19", "`message`: a message", LookingPromises::messageMessage);
+        Document.test("Promise 19", "`index`: 0 for the first one", LookingPromises::messageIndex);
+        Document.test("Promise 19", "Returns 0 to 25 for a letter, 26 for a gap", LookingPromises::messageReturns);
         Document.test("Promise 19", "INVALID_ARGUMENT if there is no such message or index is negative",
-            LookEdges::messageRefused);
-        Document.test("Promise 19", "NONE if it has not so many characters", LookEdges::messageNone);
+            LookingPromises::messageRefused);
+        Document.test("Promise 19", "NONE if it has not so many characters", LookingPromises::messageNone);
         Document.test("Promise 20", "Returns the number of columns of the strip of a message",
-            LookEdges::stripReturns);
-        Document.test("Promise 20", "`message`: a message", LookEdges::stripMessage);
-        Document.test("Promise 20", "Returns the number;", LookEdges::stripReturns);
-        Document.test("Promise 20", "INVALID_ARGUMENT if there is no such message", LookEdges::stripRefused);
-        Document.test("Promise 21", "Returns a column of the picture of a message", LookEdges::pictureReturns);
-        Document.test("Promise 21", "`message`: a message", LookEdges::pictureMessage);
-        Document.test("Promise 21", "`shift`: -2 to 2", LookEdges::pictureShift);
-        Document.test("Promise 21", "`column`: 0 to W - 1", LookEdges::pictureColumn);
-        Document.test("Promise 21", "Returns its bits", LookEdges::pictureReturns);
-        Document.test("Promise 21", "INVALID_ARGUMENT if an argument is out of range", LookEdges::pictureRefused);
-        Document.test("Promise 22", "Returns the power that was used in a second", LookEdges::powerReturns);
-        Document.test("Promise 22", "`ago`: 1 for the last second, up to 20", LookEdges::powerAgo);
-        Document.test("Promise 22", "Returns the power;", LookEdges::powerReturns);
-        Document.test("Promise 22", "INVALID_ARGUMENT if ago is out of range", LookEdges::powerRefused);
-        Document.test("Promise 22", "NONE if not so many seconds have passed", LookEdges::powerNone);
+            LookingPromises::stripReturns);
+        Document.test("Promise 20", "`message`: a message", LookingPromises::stripMessage);
+        Document.test("Promise 20", "Returns the number;", LookingPromises::stripReturns);
+        Document.test("Promise 20", "INVALID_ARGUMENT if there is no such message", LookingPromises::stripRefused);
+        Document.test("Promise 21", "Returns a column of the picture of a message",
+            LookingPromises::pictureReturns);
+        Document.test("Promise 21", "`message`: a message", LookingPromises::pictureMessage);
+        Document.test("Promise 21", "`shift`: -2 to 2", LookingPromises::pictureShift);
+        Document.test("Promise 21", "`column`: 0 to W - 1", LookingPromises::pictureColumn);
+        Document.test("Promise 21", "Returns its bits", LookingPromises::pictureReturns);
+        Document.test("Promise 21", "INVALID_ARGUMENT if an argument is out of range",
+            LookingPromises::pictureRefused);
+        Document.test("Promise 22", "Returns the power that was used in a second", LookingPromises::powerReturns);
+        Document.test("Promise 22", "`ago`: 1 for the last second, up to 20", LookingPromises::powerAgo);
+        Document.test("Promise 22", "up to 20", LookingPromises::powerOfSixtySeconds);
+        Document.test("Promise 22", "Returns the power;", LookingPromises::powerReturns);
+        Document.test("Promise 22", "INVALID_ARGUMENT if ago is out of range", LookingPromises::powerRefused);
+        Document.test("Promise 22", "NONE if not so many seconds have passed", LookingPromises::powerNone);
     }
 
     private static void countReturns() {
@@ -481,6 +489,27 @@ final class LookEdges {
         Edges.range(board, 1, 0, 20, 8, Board::power);
         Check.due("19 ago", board.power(19), 8);
         Check.due("18 ago", board.power(18), 0);
+    }
+
+    /** Each second has a power of its own, which is told until 20 more have passed. */
+    private static void powerOfSixtySeconds() {
+        Board board = Boards.withText(40, "e=7f7f7f7f7f; >eeeeeeeeeeee;");
+        board.show(0, 0);
+        int[] used = new int[60];
+        int all = 0;
+        for (int second = 0; second < 60; second++) {
+            board.setNumber(0, 2 + second % 7);
+            board.pass(1);
+            used[second] = board.count(Boards.POWER) - all;
+            all += used[second];
+            Board looking = board.again();
+            for (int ago = 1; ago <= 20; ago++) {
+                int want = ago <= second + 1 ? used[second + 1 - ago] : Edges.NONE;
+                Check.due(ago + " ago", looking.power(ago), want);
+            }
+        }
+        Check.due("the first second", used[0], 2);
+        Check.due("the second one", used[1], 3);
     }
 
     private static void powerRefused() {

@@ -1,32 +1,33 @@
-/** The edges that the promises 5 to 9 name. */
-final class MessageEdges {
-    private MessageEdges() {
+/** Promises 5 to 9: addMessage, removeMessage, appendCharacter, clearText, load. */
+final class MessagePromises {
+    private MessagePromises() {
     }
 
     static void test() {
-        Document.test("Promise 5", "Adds a message of one or two characters", MessageEdges::adds);
-        Document.test("Promise 5", "`first`: 0 to 25, or 26 for a gap", MessageEdges::first);
-        Document.test("Promise 5", "`second`: 0 to 26, or -1 for none", MessageEdges::second);
-        Document.test("Promise 5", "Returns its number", MessageEdges::addReturns);
-        Document.test("Promise 5", "INVALID_ARGUMENT if an argument is out of range", MessageEdges::addRefused);
-        Document.test("Promise 5", "CAPACITY_EXCEEDED if there are 8 messages", MessageEdges::addWithEight);
-        Document.test("Promise 6", "Removes a message", MessageEdges::removes);
-        Document.test("Promise 6", "the aim stays", MessageEdges::aimStays);
-        Document.test("Promise 6", "`message`: a message", MessageEdges::removeMessage);
-        Document.test("Promise 6", "Returns the number of messages that are left", MessageEdges::removeReturns);
-        Document.test("Promise 6", "INVALID_ARGUMENT if there is no such message", MessageEdges::removeRefused);
-        Document.test("Promise 7", "Appends a character to the text", MessageEdges::appends);
-        Document.test("Promise 7", "`character`: character code, 0 to 255", MessageEdges::character);
-        Document.test("Promise 7", "Returns the new length of the text", MessageEdges::appendReturns);
-        Document.test("Promise 7", "INVALID_ARGUMENT if character is out of range", MessageEdges::appendRefused);
-        Document.test("Promise 7", "CAPACITY_EXCEEDED if the text has 120 characters", MessageEdges::appendWith120);
-        Document.test("Promise 8", "Makes the text empty", MessageEdges::clears);
-        Document.test("Promise 8", "Returns the previous length of the text", MessageEdges::clearReturns);
-        Document.test("Promise 9", "Reads the text", MessageEdges::reads);
-        Document.test("Promise 9", "The text becomes empty", MessageEdges::becomesEmpty);
-        Document.test("Promise 9", "Returns the number of items", MessageEdges::loadReturns);
+        Document.test("Promise 5", "Adds a message of one or two characters", MessagePromises::adds);
+        Document.test("Promise 5", "`first`: 0 to 25, or 26 for a gap", MessagePromises::first);
+        Document.test("Promise 5", "`second`: 0 to 26, or -1 for none", MessagePromises::second);
+        Document.test("Promise 5", "Returns its number", MessagePromises::addReturns);
+        Document.test("Promise 5", "INVALID_ARGUMENT if an argument is out of range", MessagePromises::addRefused);
+        Document.test("Promise 5", "CAPACITY_EXCEEDED if there are 8 messages", MessagePromises::addWithEight);
+        Document.test("Promise 6", "Removes a message", MessagePromises::removes);
+        Document.test("Promise 6", "the aim stays", MessagePromises::aimStays);
+        Document.test("Promise 6", "`message`: a message", MessagePromises::removeMessage);
+        Document.test("Promise 6", "Returns the number of messages that are left", MessagePromises::removeReturns);
+        Document.test("Promise 6", "INVALID_ARGUMENT if there is no such message", MessagePromises::removeRefused);
+        Document.test("Promise 7", "Appends a character to the text", MessagePromises::appends);
+        Document.test("Promise 7", "`character`: character code, 0 to 255", MessagePromises::character);
+        Document.test("Promise 7", "Returns the new length of the text", MessagePromises::appendReturns);
+        Document.test("Promise 7", "INVALID_ARGUMENT if character is out of range", MessagePromises::appendRefused);
+        Document.test("Promise 7", "CAPACITY_EXCEEDED if the text has 120 characters",
+            MessagePromises::appendWith120);
+        Document.test("Promise 8", "Makes the text empty", MessagePromises::clears);
+        Document.test("Promise 8", "Returns the previous length of the text", MessagePromises::clearReturns);
+        Document.test("Promise 9", "Reads the text", MessagePromises::reads);
+        Document.test("Promise 9", "The text becomes empty", MessagePromises::becomesEmpty);
+        Document.test("Promise 9", "Returns the number of items", MessagePromises::loadReturns);
         Document.test("Promise 9", "-2000 minus the error position if the text has an error (then nothing changes,"
-            + " and the text is kept)", MessageEdges::loadRefused);
+            + " and the text is kept)", MessagePromises::loadRefused);
     }
 
     private static void adds() {
@@ -113,6 +114,26 @@ final class MessageEdges {
             Check.due("left", board.message(message, 0), left[message]);
         }
         Check.due("five", board.count(Boards.MESSAGES), 5);
+        Board lengths = Boards.withText(6, ">abcdefghijkl;>m;>no;>pqr;>s;>t;>uv;>wxyz;");
+        lengths.removeMessage(1);
+        messagesAre(lengths, "abcdefghijkl", "no", "pqr", "s", "t", "uv", "wxyz");
+        lengths.removeMessage(0);
+        messagesAre(lengths, "no", "pqr", "s", "t", "uv", "wxyz");
+        lengths.removeMessage(5);
+        messagesAre(lengths, "no", "pqr", "s", "t", "uv");
+    }
+
+    private static void messagesAre(Board made, String... messages) {
+        Board board = made.again();
+        Check.due("messages", board.count(Boards.MESSAGES), messages.length);
+        for (int message = 0; message < messages.length; message++) {
+            int length = messages[message].length();
+            for (int index = 0; index < length; index++) {
+                int want = messages[message].charAt(index) - 'a';
+                Check.due("character of " + messages[message], board.message(message, index), want);
+            }
+            Check.due("end of " + messages[message], board.message(message, length), Edges.NONE);
+        }
     }
 
     private static void aimStays() {

@@ -1,26 +1,27 @@
-/** The edges that promise 27, bestOrder, names. */
-final class OrderEdges {
+/** Promise 27: bestOrder. */
+final class OrderPromises {
     private static final String ORDER = "Promise 27";
 
-    private OrderEdges() {
+    private OrderPromises() {
     }
 
     static void test() {
         Document.test(ORDER, "Finds the order of some messages in which they can be shown one after the other (with"
-            + " the shift 0, beginning with what the board shows now) with the fewest flips", OrderEdges::fewestFlips);
-        Document.test(ORDER, "(with the shift 0", OrderEdges::shiftZero);
-        Document.test(ORDER, "beginning with what the board shows now", OrderEdges::whatIsShown);
+            + " the shift 0, beginning with what the board shows now) with the fewest flips",
+            OrderPromises::fewestFlips);
+        Document.test(ORDER, "(with the shift 0", OrderPromises::shiftZero);
+        Document.test(ORDER, "beginning with what the board shows now", OrderPromises::whatIsShown);
         Document.test(ORDER, "if the dots that are known to be stuck are left out, and all others flip",
-            OrderEdges::knownDots);
-        Document.test(ORDER, "`messages`: a set of 1 to 5 messages (bit k for message k)", OrderEdges::sets);
+            OrderPromises::knownDots);
+        Document.test(ORDER, "`messages`: a set of 1 to 5 messages (bit k for message k)", OrderPromises::sets);
         Document.test(ORDER, "`what`: 0 the number of flips, 1 to 5 the first to the fifth message of the order",
-            OrderEdges::what);
-        Document.test(ORDER, "Returns that number", OrderEdges::returns);
+            OrderPromises::what);
+        Document.test(ORDER, "Returns that number", OrderPromises::returns);
         Document.test(ORDER, "of several orders the one with the smaller message where they differ first",
-            OrderEdges::smallerFirst);
+            OrderPromises::smallerFirst);
         Document.test(ORDER, "INVALID_ARGUMENT if messages is not such a set or what is out of range",
-            OrderEdges::refused);
-        Document.test(ORDER, "NONE if there are not so many messages in the set", OrderEdges::none);
+            OrderPromises::refused);
+        Document.test(ORDER, "NONE if there are not so many messages in the set", OrderPromises::none);
     }
 
     /** Each is the one ahead and a dot more, from the top down, in this mixed order. */

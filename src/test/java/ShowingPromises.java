@@ -1,33 +1,36 @@
-/** The edges that the promises 10 to 14 name. */
-final class DisplayEdges {
-    private DisplayEdges() {
+/** Promises 10 to 14: show, darken, jam, mend, pass. */
+final class ShowingPromises {
+    private ShowingPromises() {
     }
 
     static void test() {
-        Document.test("Promise 10", "Shows a message", DisplayEdges::shows);
-        Document.test("Promise 10", "`message`: a message", DisplayEdges::showMessage);
-        Document.test("Promise 10", "`how`: 0 with the shift 0, 1 with the best shift", DisplayEdges::showHow);
-        Document.test("Promise 10", "Returns the number of due dots then", DisplayEdges::showReturns);
-        Document.test("Promise 10", "INVALID_ARGUMENT if an argument is out of range", DisplayEdges::showRefused);
-        Document.test("Promise 11", "Makes the aim dark", DisplayEdges::darkens);
-        Document.test("Promise 11", "Returns the number of due dots then", DisplayEdges::darkenReturns);
-        Document.test("Promise 12", "Makes a dot stuck, on the side that it shows", DisplayEdges::jams);
-        Document.test("Promise 12", "this is not known", DisplayEdges::jamNotKnown);
-        Document.test("Promise 12", "`column`: 0 to W - 1", DisplayEdges::jamColumn);
-        Document.test("Promise 12", "`row`: 0 to 6", DisplayEdges::jamRow);
-        Document.test("Promise 12", "Returns the number of its flips", DisplayEdges::jamReturns);
-        Document.test("Promise 12", "INVALID_ARGUMENT if an argument is out of range", DisplayEdges::jamRefused);
-        Document.test("Promise 12", "ILLEGAL_STATE if it is stuck already", DisplayEdges::jamOfStuckDots);
-        Document.test("Promise 13", "Mends a dot: it is not stuck, and has made no flips", DisplayEdges::mends);
-        Document.test("Promise 13", "`column`: 0 to W - 1", DisplayEdges::mendColumn);
-        Document.test("Promise 13", "`row`: 0 to 6", DisplayEdges::mendRow);
+        Document.test("Promise 10", "Shows a message", ShowingPromises::shows);
+        Document.test("Promise 10", "`message`: a message", ShowingPromises::showMessage);
+        Document.test("Promise 10", "`how`: 0 with the shift 0, 1 with the best shift", ShowingPromises::showHow);
+        Document.test("Promise 10", "Returns the number of due dots then", ShowingPromises::showReturns);
+        Document.test("Promise 10", "INVALID_ARGUMENT if an argument is out of range",
+            ShowingPromises::showRefused);
+        Document.test("Promise 11", "Makes the aim dark", ShowingPromises::darkens);
+        Document.test("Promise 11", "Returns the number of due dots then", ShowingPromises::darkenReturns);
+        Document.test("Promise 12", "Makes a dot stuck, on the side that it shows", ShowingPromises::jams);
+        Document.test("Promise 12", "this is not known", ShowingPromises::jamNotKnown);
+        Document.test("Promise 12", "`column`: 0 to W - 1", ShowingPromises::jamColumn);
+        Document.test("Promise 12", "`row`: 0 to 6", ShowingPromises::jamRow);
+        Document.test("Promise 12", "Returns the number of its flips", ShowingPromises::jamReturns);
+        Document.test("Promise 12", "INVALID_ARGUMENT if an argument is out of range", ShowingPromises::jamRefused);
+        Document.test("Promise 12", "ILLEGAL_STATE if it is stuck already", ShowingPromises::jamOfStuckDots);
+        Document.test("Promise 13", "Mends a dot: it is not stuck, and has made no flips", ShowingPromises::mends);
+        Document.test("Promise 13", "`column`: 0 to W - 1", ShowingPromises::mendColumn);
+        Document.test("Promise 13", "`row`: 0 to 6", ShowingPromises::mendRow);
         Document.test("Promise 13", "Returns 1 if it was stuck, otherwise 0 (its flips are 0 then, too)",
-            DisplayEdges::mendReturns);
-        Document.test("Promise 13", "INVALID_ARGUMENT if an argument is out of range", DisplayEdges::mendRefused);
-        Document.test("Promise 14", "Lets seconds pass", DisplayEdges::passes);
-        Document.test("Promise 14", "`seconds`: 1 to 200", DisplayEdges::passSeconds);
-        Document.test("Promise 14", "Returns the number of due dots then", DisplayEdges::passReturns);
-        Document.test("Promise 14", "INVALID_ARGUMENT if seconds is out of range", DisplayEdges::passRefused);
+            ShowingPromises::mendReturns);
+        Document.test("Promise 13", "INVALID_ARGUMENT if an argument is out of range",
+            ShowingPromises::mendRefused);
+        Document.test("Promise 14", "Lets seconds pass", ShowingPromises::passes);
+        Document.test("Promise 14", "Lets seconds pass", ShowingPromises::passesInEachOrder);
+        Document.test("Promise 14", "`seconds`: 1 to 200", ShowingPromises::passSeconds);
+        Document.test("Promise 14", "Returns the number of due dots then", ShowingPromises::passReturns);
+        Document.test("Promise 14", "INVALID_ARGUMENT if seconds is out of range", ShowingPromises::passRefused);
     }
 
     private static void shows() {
@@ -297,6 +300,26 @@ final class DisplayEdges {
         Check.due("one saved state for all four", once.count(Boards.SAVED), 5);
         once.undo();
         Check.due("all four undone", once.count(Boards.SECONDS), 0);
+    }
+
+    /** Columns of 3, 1 and 7 dots; what is shown behind one second in each order, and the power of two. */
+    private static void passesInEachOrder() {
+        int[] powers = {10, 5, 10};
+        int[][] shown = {{0x54, 8, 7}, {0, 0, 15}, {4, 0, 127}};
+        int[][] used = {{10, 5}, {5, 4}, {10, 5}};
+        for (int order = 0; order < 3; order++) {
+            Board board = Boards.withText(6, "a=54087f; >a;");
+            board.setNumber(0, powers[order]);
+            board.setNumber(1, order);
+            Check.due("eleven due", board.show(0, 0), 11);
+            board.pass(1);
+            Edges.shows("order " + order, board, 0, shown[order][0], shown[order][1], shown[order][2], 0, 0);
+            Check.due("power of the first second", board.power(1), used[order][0]);
+            board.pass(1);
+            Check.due("power of the second second", board.power(1), used[order][1]);
+            board.pass(9);
+            Edges.shows("at last", board, 0, 0x54, 8, 127, 0, 0);
+        }
     }
 
     private static void passSeconds() {

@@ -1,41 +1,46 @@
-/** The edges that the promises 23 to 28 name. */
-final class ForesightEdges {
-    private ForesightEdges() {
+/** Promises 23 to 26 and 28: bestShift, due, secondsFor, between, undo. */
+final class ForesightPromises {
+    private ForesightPromises() {
     }
 
     static void test() {
-        Document.test("Promise 23", "Returns the best shift of a message", ForesightEdges::bestShiftReturns);
-        Document.test("Promise 23", "`message`: a message", ForesightEdges::bestShiftMessage);
-        Document.test("Promise 23", "Returns the shift, -2 to 2", ForesightEdges::bestShiftEnds);
-        Document.test("Promise 23", "INVALID_ARGUMENT if there is no such message", ForesightEdges::bestShiftRefused);
+        Document.test("Promise 23", "Returns the best shift of a message", ForesightPromises::bestShiftReturns);
+        Document.test("Promise 23", "`message`: a message", ForesightPromises::bestShiftMessage);
+        Document.test("Promise 23", "Returns the shift, -2 to 2", ForesightPromises::bestShiftEnds);
+        Document.test("Promise 23", "INVALID_ARGUMENT if there is no such message",
+            ForesightPromises::bestShiftRefused);
         Document.test("Promise 24", "Counts the dots that would be due if a message was shown",
-            ForesightEdges::dueCounts);
-        Document.test("Promise 24", "`message`: a message", ForesightEdges::dueMessage);
-        Document.test("Promise 24", "`how`: as for show()", ForesightEdges::dueHow);
-        Document.test("Promise 24", "Returns their number", ForesightEdges::dueReturns);
-        Document.test("Promise 24", "INVALID_ARGUMENT if an argument is out of range", ForesightEdges::dueRefused);
+            ForesightPromises::dueCounts);
+        Document.test("Promise 24", "`message`: a message", ForesightPromises::dueMessage);
+        Document.test("Promise 24", "`how`: as for show()", ForesightPromises::dueHow);
+        Document.test("Promise 24", "Returns their number", ForesightPromises::dueReturns);
+        Document.test("Promise 24", "INVALID_ARGUMENT if an argument is out of range",
+            ForesightPromises::dueRefused);
         Document.test("Promise 25", "Tells after how many seconds no dot would be due any more if a message was"
-            + " shown now", ForesightEdges::secondsForTells);
-        Document.test("Promise 25", "`message`: a message", ForesightEdges::secondsForMessage);
-        Document.test("Promise 25", "`how`: as for show()", ForesightEdges::secondsForHow);
-        Document.test("Promise 25", "Returns the number, from 0", ForesightEdges::secondsForNothing);
+            + " shown now", ForesightPromises::secondsForTells);
+        Document.test("Promise 25", "`message`: a message", ForesightPromises::secondsForMessage);
+        Document.test("Promise 25", "`how`: as for show()", ForesightPromises::secondsForHow);
+        Document.test("Promise 25", "Returns the number, from 0", ForesightPromises::secondsForNothing);
         Document.test("Promise 25", "(as in pass(), with the shift that is the best one now",
-            ForesightEdges::secondsForShiftOfNow);
+            ForesightPromises::secondsForShiftOfNow);
         Document.test("Promise 25", "dots that are not known to be stuck are tried, lives end)",
-            ForesightEdges::secondsForStuckDots);
+            ForesightPromises::secondsForStuckDots);
         Document.test("Promise 25", "INVALID_ARGUMENT if an argument is out of range",
-            ForesightEdges::secondsForRefused);
-        Document.test("Promise 25", "NONE if that is not so behind 300 seconds", ForesightEdges::secondsForMost);
+            ForesightPromises::secondsForRefused);
+        Document.test("Promise 25", "NONE if that is not so behind 300 seconds", ForesightPromises::secondsForMost);
         Document.test("Promise 26", "Counts the dots that differ between the pictures of two messages with the"
-            + " shift 0", ForesightEdges::betweenCounts);
-        Document.test("Promise 26", "without those that are known to be stuck", ForesightEdges::betweenKnown);
-        Document.test("Promise 26", "`a`: a message", ForesightEdges::betweenA);
-        Document.test("Promise 26", "`b`: a message", ForesightEdges::betweenB);
-        Document.test("Promise 26", "Returns their number", ForesightEdges::betweenReturns);
-        Document.test("Promise 26", "INVALID_ARGUMENT if there is no such message", ForesightEdges::betweenRefused);
-        Document.test("Promise 28", "Restores the most recently saved state and discards it", ForesightEdges::undoes);
-        Document.test("Promise 28", "Returns the number of states that are still saved", ForesightEdges::undoReturns);
-        Document.test("Promise 28", "ILLEGAL_STATE if there is none", ForesightEdges::undoRefused);
+            + " shift 0", ForesightPromises::betweenCounts);
+        Document.test("Promise 26", "without those that are known to be stuck", ForesightPromises::betweenKnown);
+        Document.test("Promise 26", "`a`: a message", ForesightPromises::betweenA);
+        Document.test("Promise 26", "`b`: a message", ForesightPromises::betweenB);
+        Document.test("Promise 26", "Returns their number", ForesightPromises::betweenReturns);
+        Document.test("Promise 26", "INVALID_ARGUMENT if there is no such message",
+            ForesightPromises::betweenRefused);
+        Document.test("Promise 28", "Restores the most recently saved state and discards it",
+            ForesightPromises::undoes);
+        Document.test("Promise 28", "Returns the number of states that are still saved",
+            ForesightPromises::undoReturns);
+        Document.test("Promise 28", "ILLEGAL_STATE if there is none", ForesightPromises::undoRefused);
     }
 
     private static void bestShiftReturns() {

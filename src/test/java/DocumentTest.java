@@ -1,8 +1,8 @@
 import java.io.IOException;
 import java.nio.file.Path;
 
-/** The edges that the document names, each under the words that name it. */
-public final class EdgesTest {
+/** What the document says, sentence by sentence: the terms first, then the promises. */
+public final class DocumentTest {
     public static void main(String[] args) throws IOException {
         Document.read(Path.of(args[1]));
         BoardTerms.test();
@@ -12,12 +12,12 @@ public final class EdgesTest {
         TextTerms.test();
         UndoTerms.test();
         ErrorTerms.test();
-        SettingsEdges.test();
-        MessageEdges.test();
-        DisplayEdges.test();
-        LookEdges.test();
-        ForesightEdges.test();
-        OrderEdges.test();
+        SettingsPromises.test();
+        MessagePromises.test();
+        ShowingPromises.test();
+        LookingPromises.test();
+        ForesightPromises.test();
+        OrderPromises.test();
         Document.everySentenceHasATest();
         Check.end();
     }

@@ -1,37 +1,37 @@
-/** The edges that the promises 1 to 4 name. */
-final class SettingsEdges {
-    private SettingsEdges() {
+/** Promises 1 to 4: a new object, begin, setNumber, setColumn. */
+final class SettingsPromises {
+    private SettingsPromises() {
     }
 
     static void test() {
         Document.test("Promise 1", "Creates a dark board of 20 columns, without columns of letters and messages,"
-            + " with an empty text", SettingsEdges::newObject);
-        Document.test("Promise 2", "all dots dark, without flips, not stuck", SettingsEdges::beginDots);
-        Document.test("Promise 2", "the aim dark", SettingsEdges::beginAim);
-        Document.test("Promise 2", "nothing counted", SettingsEdges::beginCounts);
-        Document.test("Promise 2", "Letters, messages and numbers stay", SettingsEdges::beginKeeps);
-        Document.test("Promise 2", "`columns`: 6 to 40", SettingsEdges::beginColumns);
-        Document.test("Promise 2", "Returns the previous number of columns", SettingsEdges::beginReturns);
-        Document.test("Promise 2", "INVALID_ARGUMENT if columns is out of range", SettingsEdges::beginRefused);
-        Document.test("Promise 3", "Sets a number", SettingsEdges::setNumberSets);
-        Document.test("Promise 3", "(Dots that are stuck stay stuck", SettingsEdges::stuckDotsStay);
+            + " with an empty text", SettingsPromises::newObject);
+        Document.test("Promise 2", "all dots dark, without flips, not stuck", SettingsPromises::beginDots);
+        Document.test("Promise 2", "the aim dark", SettingsPromises::beginAim);
+        Document.test("Promise 2", "nothing counted", SettingsPromises::beginCounts);
+        Document.test("Promise 2", "Letters, messages and numbers stay", SettingsPromises::beginKeeps);
+        Document.test("Promise 2", "`columns`: 6 to 40", SettingsPromises::beginColumns);
+        Document.test("Promise 2", "Returns the previous number of columns", SettingsPromises::beginReturns);
+        Document.test("Promise 2", "INVALID_ARGUMENT if columns is out of range", SettingsPromises::beginRefused);
+        Document.test("Promise 3", "Sets a number", SettingsPromises::setNumberSets);
+        Document.test("Promise 3", "(Dots that are stuck stay stuck", SettingsPromises::stuckDotsStay);
         Document.test("Promise 3", "a dot that has made as many flips already sticks with its next one",
-            SettingsEdges::sticksWithTheNext);
+            SettingsPromises::sticksWithTheNext);
         Document.test("Promise 3", "`what`: 0 P, 1 the order (0 to 2), 2 the length of a life",
-            SettingsEdges::setNumberWhat);
-        Document.test("Promise 3", "`value`: in its range", SettingsEdges::setNumberValue);
-        Document.test("Promise 3", "Returns the previous number", SettingsEdges::setNumberReturns);
+            SettingsPromises::setNumberWhat);
+        Document.test("Promise 3", "`value`: in its range", SettingsPromises::setNumberValue);
+        Document.test("Promise 3", "Returns the previous number", SettingsPromises::setNumberReturns);
         Document.test("Promise 3", "INVALID_ARGUMENT if what or value is out of range",
-            SettingsEdges::setNumberRefused);
+            SettingsPromises::setNumberRefused);
         Document.test("Promise 4", "Sets a column of a letter, or adds one behind the others",
-            SettingsEdges::setColumnSetsOrAdds);
-        Document.test("Promise 4", "`letter`: 0 to 25", SettingsEdges::setColumnLetter);
+            SettingsPromises::setColumnSetsOrAdds);
+        Document.test("Promise 4", "`letter`: 0 to 25", SettingsPromises::setColumnLetter);
         Document.test("Promise 4", "`index`: 0 to the number of its columns, at most 4",
-            SettingsEdges::setColumnIndex);
-        Document.test("Promise 4", "`bits`: 0 to 127", SettingsEdges::setColumnBits);
-        Document.test("Promise 4", "Returns the number of its columns then", SettingsEdges::setColumnReturns);
+            SettingsPromises::setColumnIndex);
+        Document.test("Promise 4", "`bits`: 0 to 127", SettingsPromises::setColumnBits);
+        Document.test("Promise 4", "Returns the number of its columns then", SettingsPromises::setColumnReturns);
         Document.test("Promise 4", "INVALID_ARGUMENT if an argument is out of range",
-            SettingsEdges::setColumnRefused);
+            SettingsPromises::setColumnRefused);
     }
 
     private static void newObject() {
@@ -49,6 +49,9 @@ final class SettingsEdges {
         Check.due("no text", board.clearText(), 0);
         Check.due("no second", board.power(1), Edges.NONE);
         Check.due("no saved state", board.undo(), Edges.ILLEGAL);
+        String before = new Board().whole();
+        Edges.busy();
+        Check.same("another object's calls change nothing", new Board().whole(), before);
     }
 
     /** Bright dots, stuck dots and known ones from the first to the last of 40 columns, all counts above 0. */
@@ -84,6 +87,9 @@ final class SettingsEdges {
         Check.due("all of them flip again", board.pass(1), 0);
         Board narrow = worn();
         narrow.begin(6);
+        for (int what = Boards.DUE; what <= Boards.OTHER; what++) {
+            Check.due("count " + what + " of a narrow board", narrow.count(what), 0);
+        }
         narrow.begin(40);
         for (int what = 0; what < 4; what++) {
             Edges.sidesAre("beside the narrow board, side " + what, narrow, what, new int[40]);
@@ -130,6 +136,12 @@ final class SettingsEdges {
         Check.due("strip", board.strip(0), 2 + 1 + 2 + 1 + 5);
         Check.due("text", board.count(Boards.TEXT), 3);
         Check.due("saved states", board.count(Boards.SAVED), 6);
+        Board worn = worn();
+        worn.begin(40);
+        Board other = Boards.withText(40, "e=7f7f7f7f7f; >eeeeeeeeeeee; >e;");
+        other.setNumber(0, 50);
+        other.setNumber(2, 1);
+        Check.same("all else is as on another new board", worn.look(), other.look());
     }
 
     private static void beginColumns() {
@@ -289,6 +301,10 @@ final class SettingsEdges {
         Board five = Boards.withText(6, "z=0102030405; a=0102030405;");
         Edges.range(five, 0, 5, 4, 5, (board, index) -> board.setColumn(25, index, 1));
         Edges.range(five, 0, 5, 4, 5, (board, index) -> board.setColumn(0, index, 1));
+        Boards.load(five, "z=01;");
+        Edges.range(five, 0, 1, 1, 2, (board, index) -> board.setColumn(25, index, 9));
+        five.setColumn(25, 1, 9);
+        columnsAre(five, 25, 1, 9);
     }
 
     private static void setColumnBits() {
