@@ -10,8 +10,25 @@ final class Board implements Calls {
 
     private final FlipBoard board = new FlipBoard();
     private final List<int[]> kept = new ArrayList<>();
+    private final boolean keeps;
+
+    Board() {
+        this(true);
+    }
+
+    private Board(boolean keeps) {
+        this.keeps = keeps;
+    }
+
+    /** One that takes any number of calls and keeps none. */
+    static Board withoutEnd() {
+        return new Board(false);
+    }
 
     private void keep(int promise, int a, int b, int c) {
+        if (!keeps) {
+            return;
+        }
         if (kept.size() == MOST_CALLS) {
             throw new IllegalStateException("a 513th call in a test");
         }

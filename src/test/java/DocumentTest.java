@@ -1,10 +1,12 @@
 import java.io.IOException;
 import java.nio.file.Path;
 
-/** What the document says, sentence by sentence: the terms first, then the promises. */
+/** What the document says, sentence by sentence: the face and the terms first, then the promises. */
 public final class DocumentTest {
     public static void main(String[] args) throws IOException {
         Document.read(Path.of(args[1]));
+        FirstTerms.test();
+        FaceTerms.test(new Source(Path.of(args[0])));
         BoardTerms.test();
         LetterTerms.test();
         ShowingTerms.test();

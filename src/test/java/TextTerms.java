@@ -22,6 +22,7 @@ final class TextTerms {
         Document.test(TEXT, "The text is read from left to right", TextTerms::leftToRight);
         Document.test(TEXT, "the error position is the offset (from 0) of the first character that is not allowed"
             + " where it stands", TextTerms::offsets);
+        Document.test(TEXT, "the first character that is not allowed where it stands", TextTerms::everyCode);
         Document.test(TEXT, "(the first digit of a column that is greater than 7 or no such digit",
             TextTerms::firstDigits);
         Document.test(TEXT, "a sixth column, a 13th character", TextTerms::tooMany);
@@ -214,6 +215,33 @@ final class TextTerms {
         errorAt(115, text + "?", text + "?    ", text + ";;;;;");
         errorAt(119, text + "    ?", text + "a=01?", text + ">bcd?", text + "    ;");
         answerIs(24, text + "a=01;", text + " >b; ");
+    }
+
+    private static void everyCode() {
+        String letters = "abcdefghijklmnopqrstuvwxyz";
+        takes("", letters + "> ");
+        takes("a", "= ");
+        takes("a=", "01234567 ");
+        takes("a=0", "0123456789abcdef");
+        takes("a=01", "01234567; ");
+        takes("a=0102030405", "; ");
+        takes("a=01;", letters + "> ");
+        takes(">", letters + "_ ");
+        takes(">a", letters + "_; ");
+        takes(">abcdefghijkl", "; ");
+        takes(">a;", letters + "> ");
+        takes(">a;>a;>a;>a;>a;>a;>a;>a;", letters + " ");
+    }
+
+    /** Each of the codes 0 to 255 behind the text: those that are not named are errors there. */
+    private static void takes(String text, String allowed) {
+        for (int code = 0; code <= 255; code++) {
+            Board board = new Board();
+            Boards.type(board, text);
+            board.appendCharacter(code);
+            boolean isTaken = board.load() != -2000 - text.length();
+            Check.due("'" + text + "' and code " + code, isTaken ? 1 : 0, allowed.indexOf(code) >= 0 ? 1 : 0);
+        }
     }
 
     private static void firstDigits() {
